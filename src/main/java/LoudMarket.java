@@ -215,9 +215,7 @@ public final class LoudMarket {
     if (now.weeks + n > MOST_WEEKS) {
       return error(STATE);
     }
-    for (int i = 0; i < n; i++) {
-      now.week();
-    }
+    now.pass(n);
     return now.market;
   }
 
@@ -257,7 +255,7 @@ public final class LoudMarket {
       return error(BEYOND);
     }
     ahead.become(now);
-    goAhead(n);
+    ahead.pass(n);
     return ahead.market;
   }
 
@@ -266,7 +264,7 @@ public final class LoudMarket {
       return error(BEYOND);
     }
     ahead.become(now);
-    goAhead(n);
+    ahead.pass(n);
     return ahead.detail(place, what);
   }
 
@@ -286,7 +284,7 @@ public final class LoudMarket {
     ahead.become(now);
     int behind = 0;
     while (behind < n && ahead.market != cell) {
-      ahead.week();
+      ahead.pass(1);
       behind++;
     }
     return ahead.market == cell ? behind : error(NONE);
@@ -302,7 +300,7 @@ public final class LoudMarket {
       ahead.restart(now);
       ahead.places[place][ITS_VOICE] = v;
       for (int i = 0; i < n && ahead.market != home; i++) {
-        ahead.week();
+        ahead.pass(1);
       }
       if (ahead.market == home) {
         return v;
@@ -324,7 +322,7 @@ public final class LoudMarket {
       }
       ahead.restart(now);
       ahead.places[i][ITS_HUSHED] = 1;
-      goAhead(n);
+      ahead.pass(n);
       int purse = ahead.places[place][ITS_PURSE];
       if (whom < 0 || purse > most) {
         whom = i;
@@ -366,7 +364,7 @@ public final class LoudMarket {
     for (int cell = 0; cell < CELLS; cell++) {
       ahead.restart(now);
       ahead.places[place][ITS_CELL] = cell;
-      goAhead(n);
+      ahead.pass(n);
       int purse = ahead.places[place][ITS_PURSE];
       if (cell == 0 || purse > most) {
         where = cell;
@@ -383,7 +381,7 @@ public final class LoudMarket {
     ahead.become(now);
     rounds.see(ahead, 0);
     for (int i = 1; i <= WEEKS_ROUND; i++) {
-      ahead.week();
+      ahead.pass(1);
       rounds.see(ahead, i);
       int tail = rounds.alike(i);
       if (tail >= 0) {
@@ -503,7 +501,7 @@ public final class LoudMarket {
     }
     ahead.become(now);
     for (int i = 0; i < plan.length; i++) {
-      ahead.week();
+      ahead.pass(1);
       if (plan.numbers[i] != ahead.market) {
         return i;
       }
@@ -577,12 +575,6 @@ public final class LoudMarket {
 
   private boolean isPlace(int place) {
     return place >= 0 && place < now.count;
-  }
-
-  private void goAhead(int n) {
-    for (int i = 0; i < n; i++) {
-      ahead.week();
-    }
   }
 
   private static boolean isCell(int cell) {
@@ -784,21 +776,13 @@ public final class LoudMarket {
       return who;
     }
 
-    void week() {
-      takeShouts();
-      if (mayGo()) {
-        if (law[MODE] == BY_PULLS) {
-          goByPulls();
-        } else {
-          goFor(loudest());
-        }
+    void pass(int n) {
+      for (int i = 0; i < n; i++) {
+        takeShouts();
+        goByLaw();
+        payShouts();
+        endWeek();
       }
-      for (int i = 0; i < count; i++) {
-        if (shouts[i] > 0) {
-          payShout(places[i], shouts[i]);
-        }
-      }
-      endWeek();
     }
 
     void coinWeek() {
@@ -812,6 +796,17 @@ public final class LoudMarket {
 
     private boolean mayGo() {
       return law[HILLS] == 0 || ground[market] != HILL || weeks % 2 == 0;
+    }
+
+    private void goByLaw() {
+      if (!mayGo()) {
+        return;
+      }
+      if (law[MODE] == BY_PULLS) {
+        goByPulls();
+      } else {
+        goFor(loudest());
+      }
     }
 
     private void goFor(int who) {
@@ -835,10 +830,15 @@ public final class LoudMarket {
       }
     }
 
-    private void payShout(int[] row, int shout) {
-      int cost = costOf(row, shout);
-      row[ITS_HOARSE] = Math.min(MOST, row[ITS_HOARSE] + shout / 2);
-      row[ITS_PURSE] = held(row[ITS_PURSE] - cost, -MOST_PURSE, MOST_PURSE);
+    private void payShouts() {
+      for (int i = 0; i < count; i++) {
+        if (shouts[i] > 0) {
+          int[] row = places[i];
+          int cost = costOf(row, shouts[i]);
+          row[ITS_HOARSE] = Math.min(MOST, row[ITS_HOARSE] + shouts[i] / 2);
+          row[ITS_PURSE] = held(row[ITS_PURSE] - cost, -MOST_PURSE, MOST_PURSE);
+        }
+      }
     }
 
     private void endWeek() {
@@ -852,7 +852,7 @@ public final class LoudMarket {
     }
 
     private boolean isRiver(int cell) {
-      return !isCell(cell) || ground[cell] == RIVER;
+      return cell < 0 || cell >= CELLS || ground[cell] == RIVER;
     }
 
     /** Where one goes that is in a CELL and goes for another, one CELL on. */
@@ -932,6 +932,9 @@ public final class LoudMarket {
     private final int[][] seen = new int[WEEKS_ROUND + 1][WIDTH];
 
     void see(World world, int week) {
+      if (!within(week, 0, WEEKS_ROUND)) {
+        return;
+      }
       int[] row = seen[week];
       row[0] = world.market;
       for (int i = 0; i < MOST_PLACES; i++) {
@@ -941,7 +944,7 @@ public final class LoudMarket {
 
     /** The WEEK ahead of this one, by a multiple of 4, behind which all was so; -1: none. */
     int alike(int week) {
-      for (int i = week - 4; i >= 0; i -= 4) {
+      for (int i = week - 4; i >= 0 && week <= WEEKS_ROUND; i -= 4) {
         if (isAlike(seen[i], seen[week])) {
           return i;
         }
@@ -1039,15 +1042,11 @@ public final class LoudMarket {
     private static final int MOST_OPEN = 5;
     private static final int MOST_DIGITS = 4;
     final Text read = new Text();
-    private int[] bytes;
+    private int[] bytes = new int[0];
     private int length = 0;
     private int at = 0;
     private int fault = -1;
     private String names = "";
-
-    Reader() {
-      bytes = new int[0];
-    }
 
     /** Where the FAULT is, -1 if there is none: then the TEXT stands in read. */
     int read(int[] tape, int taped, String namesOfUse) {
