@@ -95,6 +95,7 @@ public final class PromisesTest {
     promise = "promise 2";
     x = new LoudMarket();
     due("river", x.ground(0, 1), 0);
+    due("rivers from 0 on", x.count(3), 1);
     due("hill", x.ground(0, 2), 1);
     due("ground", x.ground(0, 0), 2);
     due("last cell", x.ground(79, 1), 0);
@@ -503,6 +504,10 @@ public final class PromisesTest {
     text(x, 1, "7");
     x.weeks(1);
     due("no COST without a SHOUT", x.placeIs(0, 6), -1661 + 12);
+    x.set(0, 7, 0);
+    text(x, 0, "1");
+    x.weeks(1);
+    due("COST of a SHOUT of 1", x.placeIs(0, 6), -1649 - 7 + 14);
 
     x = new LoudMarket();
     x.place(100, 40, 30);
@@ -583,6 +588,17 @@ public final class PromisesTest {
     x.rule(0, 1);
     x.place(100, 74, 10);
     due("south", x.weeks(1), 54);
+    x.set(0, 2, 31);
+    x.set(0, 4, 0);
+    x.stand(36);
+    due("along row 3", x.weeks(1), 35);
+    x.set(0, 4, 0);
+    x.stand(2);
+    x.set(0, 2, 72);
+    due("down column 2", x.weeks(1), 12);
+    x.set(0, 4, 0);
+    x.stand(62);
+    x.weeks(1);
     due("hoarse", x.placeIs(0, 4), 2);
   }
 
@@ -635,7 +651,10 @@ public final class PromisesTest {
     due("one too many", x.weeks(2), STATE);
     due("too many, beyond", x.weeks(61), BEYOND);
     due("coins, too many", x.coins(2), STATE);
+    x.image();
     due("the last", x.weeks(1), 0);
+    x.restore();
+    due("the last, by a coin", x.coins(1), 0);
     due("weeks", x.count(2), 9999);
     due("no more", x.weeks(1), STATE);
     due("no more coins", x.coins(1), STATE);
@@ -676,11 +695,9 @@ public final class PromisesTest {
     x = new LoudMarket();
     x.place(0, 41, 0);
     x.place(0, 47, 0);
-    x.seed(-1103527590);
-    x.coins(1);
-    int z = -1103527590 * 1103515245 + 12345;
-    due("z", x.count(7), z);
-    due("never negative", x.count(1), (z >>> 8) % 2 == 0 ? 43 : 45);
+    x.seed(2);
+    due("a draw of a z below 0", x.coins(1), 45);
+    due("z", x.count(7), -2087924461);
   }
 
   private static void moving() {
@@ -791,6 +808,10 @@ public final class PromisesTest {
     x.set(1, 3, 99);
     due("never louder", x.least(0, 1), NONE);
     due("nothing changes", x.placeIs(0, 3), 50);
+    due("a river in the way", lookFirst().least(1, 2), NONE);
+    due("a river in the way, for one", lookFirst().comes(43, 1), 1);
+    due("a river, not in the way", lookFirst().least(2, 1), NONE);
+    due("21 and 22 end evened out", lookFirst().least(2, 60), 23);
     due("n below", x.least(0, -1), BEYOND);
     due("n above", x.least(0, 61), BEYOND);
     due("60, always evened out or outdone", x.least(0, 60), NONE);
@@ -798,6 +819,16 @@ public final class PromisesTest {
     due("60", x.least(0, 60), 1);
     due("place below", x.least(-1, 0), BEYOND);
     due("place above", x.least(2, 0), BEYOND);
+  }
+
+  /** A land whose first look ahead is the next call; a river is in the way along row 4. */
+  private static LoudMarket lookFirst() {
+    LoudMarket x = new LoudMarket();
+    x.place(0, 1, 1);
+    x.place(100, 46, 20);
+    x.place(100, 40, 30);
+    x.ground(45, 1);
+    return x;
   }
 
   private static void hushAndBest() {
@@ -808,15 +839,18 @@ public final class PromisesTest {
     x.place(100, 40, 10);
     x.place(100, 41, 60);
     due("who is in the way", x.hush(0, 1), 2);
+    x.place(100, 48, 5);
+    due("who is in the way, not the last", x.hush(0, 1), 2);
     due("of several the least", x.hush(0, 0), 1);
     due("of several the least, of 1", x.hush(1, 0), 0);
     due("for the third", x.hush(2, 1), 0);
     due("nothing changes", x.placeIs(2, 7), 0);
+    due("of the louder ones that one", lookFirst().hush(1, 2), 2);
     due("n below", x.hush(0, -1), BEYOND);
     due("n above", x.hush(0, 61), BEYOND);
     due("60", x.hush(0, 60) > 0 ? 1 : 0, 1);
     due("place below", x.hush(-1, 0), BEYOND);
-    due("place above", x.hush(3, 0), BEYOND);
+    due("place above", x.hush(4, 0), BEYOND);
     LoudMarket y = new LoudMarket();
     y.place(500, 0, 99);
     y.place(500, 79, 98);
@@ -920,6 +954,16 @@ public final class PromisesTest {
     x.place(0, 43, 0);
     x.place(0, 44, 0);
     x.place(0, 0, 0);
+    LoudMarket y = new LoudMarket();
+    y.place(0, 0, 0);
+    y.place(0, 44, 0);
+    y.weeks(1);
+    due("the second", y.share(1), 1);
+    due("less the first", y.share(0), 20 - 4);
+    y.place(0, 44, 0);
+    y.set(0, 5, 99);
+    y.weeks(1);
+    due("less the third", y.share(0), 4 + 83 - 20);
     x.weeks(2);
     due("difference", x.share(0), 40 - 8);
     due("the least of two", x.share(1), 0);
@@ -1216,6 +1260,8 @@ public final class PromisesTest {
     x.weeks(7);
     x.seed(78);
     x.check();
+    x.tell(99);
+    feed(x, "77");
     x.sheet(0, 8, 2);
     x.voice(0, 1, 1);
     int nones = x.told(2);
