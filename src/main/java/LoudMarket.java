@@ -593,6 +593,10 @@ public final class LoudMarket {
     return Math.max(least, Math.min(most, v));
   }
 
+  private static int sign(int v) {
+    return v > 0 ? 1 : v < 0 ? -1 : 0;
+  }
+
   private static int distance(int one, int other) {
     int across = one % COLUMNS - other % COLUMNS;
     int down = one / COLUMNS - other / COLUMNS;
@@ -820,11 +824,11 @@ public final class LoudMarket {
       int south = 0;
       for (int i = 0; i < count; i++) {
         int cell = places[i][ITS_CELL];
-        east += shouts[i] * Integer.signum(cell % COLUMNS - market % COLUMNS);
-        south += shouts[i] * Integer.signum(cell / COLUMNS - market / COLUMNS);
+        east += shouts[i] * sign(cell % COLUMNS - market % COLUMNS);
+        south += shouts[i] * sign(cell / COLUMNS - market / COLUMNS);
       }
       int step = Math.abs(east) >= Math.abs(south)
-          ? Integer.signum(east) : COLUMNS * Integer.signum(south);
+          ? sign(east) : COLUMNS * sign(south);
       if (!isRiver(market + step)) {
         market += step;
       }
@@ -859,8 +863,8 @@ public final class LoudMarket {
     private int nextCell(int from, int to, boolean overRivers) {
       int across = to % COLUMNS - from % COLUMNS;
       int down = to / COLUMNS - from / COLUMNS;
-      int alongRow = from + Integer.signum(across);
-      int alongColumn = from + COLUMNS * Integer.signum(down);
+      int alongRow = from + sign(across);
+      int alongColumn = from + COLUMNS * sign(down);
       boolean rowFirst = Math.abs(across) >= Math.abs(down);
       int first = rowFirst ? alongRow : alongColumn;
       int second = rowFirst ? alongColumn : alongRow;
@@ -1248,11 +1252,12 @@ public final class LoudMarket {
     }
 
     private int parts(int x) {
-      if (m == number) {
+      int by = m - number;
+      if (by == 0) {
         parted = true;
         return 0;
       }
-      return x / (m - number);
+      return x / by;
     }
   }
 
