@@ -1041,10 +1041,12 @@ public final class LoudMarket {
     }
   }
 
-  /** Reads THE TAPE by the grammar, a function for each of its letters. */
+  /** Reads THE TAPE by the grammar's letters T to Q. */
   private static final class Reader {
     private static final int MOST_OPEN = 5;
     private static final int MOST_DIGITS = 4;
+    private static final int JOINED_LETTERS = 5;
+    private static final int COMPARED = 2;
     final Text read = new Text();
     private int[] bytes = new int[0];
     private int length = 0;
@@ -1060,7 +1062,7 @@ public final class LoudMarket {
       at = 0;
       fault = -1;
       read.start();
-      readT(0);
+      readJoined(0, 0);
       if (at < length) {
         fail();
       }
@@ -1083,50 +1085,28 @@ public final class LoudMarket {
       return b >= 0 && signs.indexOf((char) b) >= 0;
     }
 
-    private void readT(int open) {
-      readA(open);
-      for (int i = 0; i < TAPE_BYTES && nextIs("|"); i++) {
-        at++;
-        readA(open);
-        read.add('|', 0);
+    private static String signsOf(int letter) {
+      switch (letter) {
+        case 0: return "|";
+        case 1: return "&";
+        case COMPARED: return "<=>";
+        case 3: return "+-";
+        default: return "*/%";
       }
     }
 
-    private void readA(int open) {
-      readB(open);
-      for (int i = 0; i < TAPE_BYTES && nextIs("&"); i++) {
-        at++;
-        readB(open);
-        read.add('&', 0);
-      }
-    }
-
-    private void readB(int open) {
-      readS(open);
-      if (nextIs("<=>")) {
-        int sign = next();
-        at++;
-        readS(open);
-        read.add(sign, 0);
-      }
-    }
-
-    private void readS(int open) {
-      readP(open);
-      for (int i = 0; i < TAPE_BYTES && nextIs("+-"); i++) {
-        int sign = next();
-        at++;
-        readP(open);
-        read.add(sign, 0);
-      }
-    }
-
-    private void readP(int open) {
-      readQ(open);
-      for (int i = 0; i < TAPE_BYTES && nextIs("*/%"); i++) {
-        int sign = next();
-        at++;
+    /** T, A, B, S and P are letters 0 to 4: parts of the next letter, joined by signs. */
+    private void readJoined(int letter, int open) {
+      if (letter >= JOINED_LETTERS) {
         readQ(open);
+        return;
+      }
+      readJoined(letter + 1, open);
+      int most = letter == COMPARED ? 1 : TAPE_BYTES;
+      for (int i = 0; i < most && nextIs(signsOf(letter)); i++) {
+        int sign = next();
+        at++;
+        readJoined(letter + 1, open);
         read.add(sign, 0);
       }
     }
@@ -1144,7 +1124,7 @@ public final class LoudMarket {
         read.add('!', 0);
       } else if (b == '(' && open < MOST_OPEN) {
         at++;
-        readT(open + 1);
+        readJoined(0, open + 1);
         if (nextIs(")")) {
           at++;
         } else {
