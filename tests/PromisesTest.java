@@ -404,6 +404,7 @@ public final class PromisesTest {
     due("five !", called("!!!!!7"), 0);
     due("open again", called("((1))+((2))+!!!3+!!!0"), 4);
     due("60 bytes", called("1+1+1+1+1+1+1+1+1+1+1+1+1+1+1+1+1+1+1+1+1+1+1+1+1+1+1+1+11"), 39);
+    due("60 signs", called("!1+1+1+1+1+1+1+1+1+1+1+1+1+1+1+1+1+1+1+1+1+1+1+1+1+1+1+1+1+1"), 29);
     fault("", 0);
     fault("x", 0);
     fault("s", 0);
