@@ -302,7 +302,7 @@ public final class ModelTest {
     int calls(Speech s, int x) { s.begins(10); return x + s.p.number; }
     int goes(Speech s, int x) { s.begins(11); return calls(s, x) * 2; }
     int rests(Speech s, int x) { s.begins(12); return goes(s, x) - s.p.m; }
-    int pays(Speech s, int x) { s.begins(13); return x / (s.p.m - s.p.number); }
+    int pays(Speech s, int x) { s.begins(13); return s.parts(x, s.p.m - s.p.number); }
   }
 
   private static class Loud extends Kind {
@@ -357,8 +357,10 @@ public final class ModelTest {
   private static final class Speech {
     final Place p;
     final List<Integer> trace = new ArrayList<>();
+    boolean parted;
     Speech(Place p) { this.p = p; }
     void begins(int body) { if (trace.size() < 30) trace.add(body); }
+    int parts(int x, int by) { parted |= by == 0; return by == 0 ? 0 : x / by; }
   }
 
   // ---- texts: a FAULT by an automaton, a value by splitting at the weakest sign
@@ -886,10 +888,10 @@ public final class ModelTest {
         case 26:
           Speech s = new Speech(place(i[0]));
           in(i[1], 0, 3);
-          need(i[1] != 3 || s.p.m != s.p.number, PARTED);
           n = i[1] == 0 ? s.p.kind.calls(s, i[2]) : i[1] == 1 ? s.p.kind.goes(s, i[2])
               : i[1] == 2 ? s.p.kind.rests(s, i[2]) : s.p.kind.pays(s, i[2]);
           trace = s.trace;
+          need(!s.parted, PARTED);
           return n;
         case 27:
           need(i[0] >= 0 && i[0] < trace.size(), NONE);

@@ -8,6 +8,9 @@ public final class PromisesTest {
   private static final int PARTED = -1000006;
   private static final int MIN = Integer.MIN_VALUE;
   private static final int MAX = Integer.MAX_VALUE;
+  private static final int[][] PARTED_BODIES = {
+    {13}, {21, 13, 11, 20, 10}, {21, 13, 30, 11, 20, 10}, {21, 13, 11, 41, 20, 10},
+    {21, 13, 11, 50}, {13}, {71, 21, 13, 11, 70, 20, 10, 12, 11, 70, 20, 10}};
   private static int wrong = 0;
   private static String promise = "";
 
@@ -1041,17 +1044,12 @@ public final class PromisesTest {
     due("AHEAD pays", x.voice(6, 3, 100), 37);
     trace(x, 71, 21, 13, 11, 70, 20, 10, 12, 11, 70, 20, 10);
 
-    x.set(1, 1, 1);
-    int parted = x.told(6);
-    due("PARTED", x.voice(1, 3, 5), PARTED);
-    due("counted once", x.told(6), parted + 1);
-    due("the trace stays", x.count(6), 12);
-    due("the trace stays", x.body(0), 71);
     due("voice below", x.voice(0, -1, 0), BEYOND);
     due("voice above", x.voice(0, 4, 0), BEYOND);
     due("place below", x.voice(-1, 0, 0), BEYOND);
     due("place above", x.voice(7, 0, 0), BEYOND);
-    due("the trace stays", x.count(6), 12);
+    trace(x, 71, 21, 13, 11, 70, 20, 10, 12, 11, 70, 20, 10);
+    partings(x);
     due("body below", x.body(-1), NONE);
     due("body far below", x.body(MIN), NONE);
     due("wraps", x.voice(0, 1, MAX), -2);
@@ -1062,6 +1060,19 @@ public final class PromisesTest {
     int beyond = x.told(1);
     due("a number, no ERROR", x.voice(0, 0, BEYOND), BEYOND);
     due("not counted", x.told(1), beyond);
+  }
+
+  private static void partings(LoudMarket x) {
+    for (int place = 0; place < 7; place++) {
+      int m = x.set(place, 1, place);
+      x.voice(place, 0, 0);
+      int parted = x.told(6);
+      due("PARTED", x.voice(place, 3, 5), PARTED);
+      due("counted once", x.told(6), parted + 1);
+      trace(x, PARTED_BODIES[place]);
+      due("PARTED by 0", x.voice(place, 3, 0), PARTED);
+      x.set(place, 1, m);
+    }
   }
 
   private static void sheets() {

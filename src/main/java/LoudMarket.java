@@ -1162,25 +1162,18 @@ public final class LoudMarket {
     final int[] trace = new int[MOST_TRACE];
     int traced = 0;
     boolean parted = false;
-    private final int[] begun = new int[MOST_TRACE];
-    private int begins = 0;
     private int kind = 0;
     private int m = 0;
     private int number = 0;
 
-    /** What is said; one that is PARTED leaves THE TRACE as it was. */
+    /** What is said; one that is PARTED has its BODIES in THE TRACE, too. */
     int speak(int itsKind, int itsM, int itsNumber, int voice, int x) {
       kind = itsKind;
       m = itsM;
       number = itsNumber;
-      begins = 0;
+      traced = 0;
       parted = false;
-      int said = own(voice, x, 0);
-      if (!parted) {
-        System.arraycopy(begun, 0, trace, 0, begins);
-        traced = begins;
-      }
-      return said;
+      return own(voice, x, 0);
     }
 
     private int own(int voice, int x, int depth) {
@@ -1225,15 +1218,16 @@ public final class LoudMarket {
     }
 
     private void begin(int body) {
-      if (begins < MOST_TRACE) {
-        begun[begins] = body;
-        begins++;
+      if (traced < MOST_TRACE) {
+        trace[traced] = body;
+        traced++;
       }
     }
 
     private int parts(int x) {
       int by = m - number;
       if (by == 0) {
+        // What voice() answers is settled; BODIES that stand behind still begin.
         parted = true;
         return 0;
       }
