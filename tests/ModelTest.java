@@ -359,7 +359,7 @@ public final class ModelTest {
     final List<Integer> trace = new ArrayList<>();
     boolean parted;
     Speech(Place p) { this.p = p; }
-    void begins(int body) { if (trace.size() < 30) trace.add(body); }
+    void begins(int body) { if (!parted && trace.size() < 30) trace.add(body); }
     int parts(int x, int by) { parted |= by == 0; return by == 0 ? 0 : x / by; }
   }
 

@@ -9,8 +9,7 @@ public final class PromisesTest {
   private static final int MIN = Integer.MIN_VALUE;
   private static final int MAX = Integer.MAX_VALUE;
   private static final int[][] PARTED_BODIES = {
-    {13}, {21, 13, 11, 20, 10}, {21, 13, 30, 11, 20, 10}, {21, 13, 11, 41, 20, 10},
-    {21, 13, 11, 50}, {13}, {71, 21, 13, 11, 70, 20, 10, 12, 11, 70, 20, 10}};
+    {13}, {21, 13}, {21, 13}, {21, 13}, {21, 13}, {13}, {71, 21, 13}};
   private static int wrong = 0;
   private static String promise = "";
 

@@ -1166,7 +1166,7 @@ public final class LoudMarket {
     private int m = 0;
     private int number = 0;
 
-    /** What is said; one that is PARTED has its BODIES in THE TRACE, too. */
+    /** What is said; THE TRACE of one that is PARTED ends there, as none begins behind it. */
     int speak(int itsKind, int itsM, int itsNumber, int voice, int x) {
       kind = itsKind;
       m = itsM;
@@ -1185,6 +1185,9 @@ public final class LoudMarket {
     }
 
     private int from(int lowest, int voice, int x, int depth) {
+      if (parted) {
+        return 0;
+      }
       int k = lowest;
       for (int i = 0; i < KINDS && within(k, 0, KINDS - 1); i++) {
         int body = BODIES[k * VOICES + voice];
@@ -1227,7 +1230,6 @@ public final class LoudMarket {
     private int parts(int x) {
       int by = m - number;
       if (by == 0) {
-        // What voice() answers is settled; BODIES that stand behind still begin.
         parted = true;
         return 0;
       }
