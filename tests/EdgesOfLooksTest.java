@@ -1,42 +1,25 @@
 // Promises 18 to 27: each sentence that names an edge of a look ahead, or of
 // what is best and shared, has a test of its own.
-public final class EdgesOfLooksTest {
-  private static final int BEYOND = Sentences.BEYOND;
-  private static final int NONE = Sentences.NONE;
-  private static final int MIN = Sentences.MIN;
-  private static final int MAX = Sentences.MAX;
-
+public final class EdgesOfLooksTest extends Sentences {
   public static void main(String[] args) throws Exception {
-    Sentences.run(EdgesOfLooksTest.class);
-  }
-
-  private static void due(String call, long got, long want) {
-    Sentences.due(call, got, want);
-  }
-
-  private static void refused(String call, Sentences.Act act, int want) {
-    Sentences.refused(call, act, want);
-  }
-
-  private static int text(LoudMarket x, int use, String text) {
-    return Sentences.text(x, use, text);
+    run(EdgesOfLooksTest.class);
   }
 
   /** An act that answers no ERROR and changes nothing, not even what told() tells. */
-  private static void looks(String call, Sentences.Act act) {
-    long answer = act.on(Sentences.busy());
-    Sentences.must(answer >= Sentences.LOW, call + " answered " + answer);
-    Sentences.unchanged(Sentences::busy, call, act, (int) answer);
+  private static void looks(String call, Act act) {
+    long answer = act.on(busy());
+    must(answer >= LOW, call + " answered " + answer);
+    unchanged(Sentences::busy, call, act, (int) answer);
   }
 
   /** THE MARKET goes from 44 to 47 in three WEEKS, then stays. */
   private static LoudMarket going() {
-    return Sentences.with(110, 47, 60);
+    return with(110, 47, 60);
   }
 
   // ---- promise 18
 
-  @Sentences.Asks(of = "Promise 18", says = "AHEAD by n: THE MARKET's CELL. BEYOND.")
+  @Asks(of = "Promise 18", says = "AHEAD by n: THE MARKET's CELL. BEYOND.")
   static void thenBeyond() {
     refused("then(-1)", x -> x.then(-1), BEYOND);
     refused("then(61)", x -> x.then(61), BEYOND);
@@ -44,7 +27,7 @@ public final class EdgesOfLooksTest {
     refused("then(MAX)", x -> x.then(MAX), BEYOND);
   }
 
-  @Sentences.Asks(of = "Promise 18, Terms 4", says = "AHEAD by n (0 .. 60): as so many WEEKS would go by.")
+  @Asks(of = "Promise 18, Terms 4", says = "AHEAD by n (0 .. 60): as so many WEEKS would go by.")
   static void aheadFromNothingToSixty() {
     LoudMarket x = going();
     due("then(0)", x.then(0), 44);
@@ -53,20 +36,20 @@ public final class EdgesOfLooksTest {
     due("then(60)", x.then(60), 47);
     looks("then(0)", y -> y.then(0));
     looks("then(60)", y -> y.then(60));
-    x = Sentences.with(500, 44, 0);
+    x = with(500, 44, 0);
     text(x, 0, "w=59");
     x.place(100, 0, 0);
     text(x, 1, "7");
     x.set(0, 5, 0);
     due("59 WEEKS", x.thenPlace(59, 0, 6), 0);
     due("60 WEEKS", x.thenPlace(60, 0, 6), -7);
-    due("ahead of the last WEEKS", Sentences.old().then(60), 47);
-    due("WEEKS ahead go on", Sentences.old().thenPlace(60, 0, 4), 0);
+    due("ahead of the last WEEKS", old().then(60), 47);
+    due("WEEKS ahead go on", old().thenPlace(60, 0, 4), 0);
   }
 
   // ---- promise 19
 
-  @Sentences.Asks(of = "Promise 19", says = "AHEAD by n: of a PLACE what (0 .. 9) as in placeIs(). BEYOND.")
+  @Asks(of = "Promise 19", says = "AHEAD by n: of a PLACE what (0 .. 9) as in placeIs(). BEYOND.")
   static void thenPlaceBeyond() {
     int[] is = {1, 10, 47, 60, 27, 20, -4, 0, 33, 16};
     for (int what = 0; what < 10; what++) {
@@ -87,20 +70,20 @@ public final class EdgesOfLooksTest {
 
   // ---- promise 20
 
-  @Sentences.Asks(of = "Promise 20", says = "WHOSE. NONE.")
+  @Asks(of = "Promise 20", says = "WHOSE. NONE.")
   static void whoseNone() {
-    Sentences.refused(Sentences::byPulls, "whose() BY PULLS", x -> x.whose(), NONE);
-    Sentences.refused(Sentences::empty, "whose() without PLACES", x -> x.whose(), NONE);
+    refused(Sentences::byPulls, "whose() BY PULLS", x -> x.whose(), NONE);
+    refused(Sentences::empty, "whose() without PLACES", x -> x.whose(), NONE);
     LoudMarket x = going();
     x.place(100, 40, 60);
     due("two have it", x.whose(), NONE);
     due("counted", x.told(2), 1);
   }
 
-  @Sentences.Asks(of = "Promise 20, Terms 4",
+  @Asks(of = "Promise 20, Terms 4",
       says = "WHOSE: the PLACE for which it would go this WEEK (none if it stays for want of one, or BY PULLS).")
   static void whoseForWantOfOne() {
-    LoudMarket x = Sentences.with(100, 47, 1);
+    LoudMarket x = with(100, 47, 1);
     due("one shouts 1", x.whose(), 0);
     x.set(0, 3, 0);
     due("none shouts", x.whose(), NONE);
@@ -123,7 +106,7 @@ public final class EdgesOfLooksTest {
 
   // ---- promise 21
 
-  @Sentences.Asks(of = "Promise 21", says = "COMES. BEYOND: n 0 .. 60. NONE.")
+  @Asks(of = "Promise 21", says = "COMES. BEYOND: n 0 .. 60. NONE.")
   static void comesBeyond() {
     refused("comes(44, -1)", x -> x.comes(44, -1), BEYOND);
     refused("comes(44, 61)", x -> x.comes(44, 61), BEYOND);
@@ -135,7 +118,7 @@ public final class EdgesOfLooksTest {
     looks("comes(where it is, 60)", x -> x.comes(x.count(1), 60));
   }
 
-  @Sentences.Asks(of = "Promise 21, Terms 4", says = "COMES to a CELL by n: behind how many WEEKS (0 .. n) it stands there first.")
+  @Asks(of = "Promise 21, Terms 4", says = "COMES to a CELL by n: behind how many WEEKS (0 .. n) it stands there first.")
   static void comesWithin() {
     due("now", going().comes(44, 0), 0);
     due("now, by 60", going().comes(44, 60), 0);
@@ -144,7 +127,7 @@ public final class EdgesOfLooksTest {
     due("behind 3 by 2", going().comes(47, 2), NONE);
     due("not now", going().comes(45, 0), NONE);
     due("never", going().comes(0, 60), NONE);
-    LoudMarket x = Sentences.with(500, 47, 0);
+    LoudMarket x = with(500, 47, 0);
     text(x, 0, "w=59");
     due("behind 60", x.comes(45, 60), 60);
     due("behind 60 by 59", x.comes(45, 59), NONE);
@@ -156,7 +139,7 @@ public final class EdgesOfLooksTest {
 
   // ---- promise 22
 
-  @Sentences.Asks(of = "Promise 22", says = "LEAST. BEYOND: n 0 .. 60. NONE.")
+  @Asks(of = "Promise 22", says = "LEAST. BEYOND: n 0 .. 60. NONE.")
   static void leastBeyond() {
     refused("least(0, -1)", x -> x.least(0, -1), BEYOND);
     refused("least(0, 61)", x -> x.least(0, 61), BEYOND);
@@ -166,17 +149,17 @@ public final class EdgesOfLooksTest {
     refused("NONE", x -> x.least(6, 60), NONE);
     refused("NONE of no WEEKS", x -> x.least(6, 0), NONE);
     refused("BEYOND ahead of NONE", x -> x.least(6, 61), BEYOND);
-    LoudMarket x = Sentences.with(100, 45, 7);
+    LoudMarket x = with(100, 45, 7);
     due("by 60", x.least(0, 60), 1);
     due("its VOICE is as it was", x.placeIs(0, 3), 7);
     due("no PLACES", new LoudMarket().least(0, 0), BEYOND);
-    Sentences.unchanged(EdgesOfLooksTest::going, "least(0, 3)", y -> y.least(0, 3), 1);
+    unchanged(EdgesOfLooksTest::going, "least(0, 3)", y -> y.least(0, 3), 1);
   }
 
-  @Sentences.Asks(of = "Promise 22, Terms 4",
+  @Asks(of = "Promise 22, Terms 4",
       says = "LEAST of a PLACE by n: the least VOICE (0 .. 99) with which THE MARKET stands in its CELL within n WEEKS.")
   static void leastVoice() {
-    LoudMarket x = Sentences.with(100, 45, 50);
+    LoudMarket x = with(100, 45, 50);
     x.place(100, 40, 30);
     due("louder than 30", x.least(0, 1), 31);
     due("no WEEKS", x.least(0, 0), NONE);
@@ -194,7 +177,7 @@ public final class EdgesOfLooksTest {
     due("2 WEEKS' way in 2", x.least(0, 2), 1);
     x.set(0, 4, 20);
     due("HOARSE", x.least(0, 2), 21);
-    x = Sentences.with(100, 40, 1);
+    x = with(100, 40, 1);
     x.place(500, 43, 1);
     x.place(100, 74, 0);
     text(x, 0, "9");
@@ -204,7 +187,7 @@ public final class EdgesOfLooksTest {
 
   // ---- promise 23
 
-  @Sentences.Asks(of = "Promise 23", says = "HUSH. BEYOND: n 0 .. 60. NONE: there is no other one.")
+  @Asks(of = "Promise 23", says = "HUSH. BEYOND: n 0 .. 60. NONE: there is no other one.")
   static void hushBeyond() {
     refused("hush(0, -1)", x -> x.hush(0, -1), BEYOND);
     refused("hush(0, 61)", x -> x.hush(0, 61), BEYOND);
@@ -216,11 +199,11 @@ public final class EdgesOfLooksTest {
     looks("hush(3, 60)", x -> x.hush(3, 60));
   }
 
-  @Sentences.Asks(of = "Promise 23", says = "NONE: there is no other one.")
+  @Asks(of = "Promise 23", says = "NONE: there is no other one.")
   static void hushNoOther() {
-    Sentences.refused(EdgesOfLooksTest::going, "hush(0, 60) alone", x -> x.hush(0, 60), NONE);
-    Sentences.refused(EdgesOfLooksTest::going, "hush(0, 0) alone", x -> x.hush(0, 0), NONE);
-    Sentences.refused(EdgesOfLooksTest::going, "BEYOND ahead of NONE", x -> x.hush(0, 61), BEYOND);
+    refused(EdgesOfLooksTest::going, "hush(0, 60) alone", x -> x.hush(0, 60), NONE);
+    refused(EdgesOfLooksTest::going, "hush(0, 0) alone", x -> x.hush(0, 0), NONE);
+    refused(EdgesOfLooksTest::going, "BEYOND ahead of NONE", x -> x.hush(0, 61), BEYOND);
     LoudMarket x = going();
     x.place(0, 0, 0);
     due("one other", x.hush(0, 0), 1);
@@ -229,7 +212,7 @@ public final class EdgesOfLooksTest {
     due("one other, HUSHED as it is", x.hush(1, 1), 0);
   }
 
-  @Sentences.Asks(of = "Promise 23, Terms 4",
+  @Asks(of = "Promise 23, Terms 4",
       says = "HUSH for a PLACE by n: the other PLACE that, were it HUSHED, makes its PURSE AHEAD by n greatest; of several the least.")
   static void hushOfSeveral() {
     LoudMarket x = new LoudMarket();
@@ -257,11 +240,18 @@ public final class EdgesOfLooksTest {
     text(x, 1, "99");
     due("PURSES below 0", x.hush(0, 3), 1);
     due("HUSHED is as it was", x.placeIs(1, 7), 0);
+    x = new LoudMarket();
+    x.place(500, 4, 90);
+    x.place(0, 0, 0);
+    x.place(500, 74, 99);
+    x.set(0, 5, 8);
+    text(x, 1, "99");
+    due("PURSES below 0, not the first", x.hush(0, 2), 2);
   }
 
   // ---- promise 24
 
-  @Sentences.Asks(of = "Promise 24", says = "BEST CELL: what 0 which, 1 WORTHS there. BEYOND.")
+  @Asks(of = "Promise 24", says = "BEST CELL: what 0 which, 1 WORTHS there. BEYOND.")
   static void bestBeyond() {
     refused("best(-1)", x -> x.best(-1), BEYOND);
     refused("best(2)", x -> x.best(2), BEYOND);
@@ -271,7 +261,7 @@ public final class EdgesOfLooksTest {
     looks("best(1)", x -> x.best(1));
   }
 
-  @Sentences.Asks(of = "Promise 24", says = "NONE: all is RIVER.")
+  @Asks(of = "Promise 24", says = "NONE: all is RIVER.")
   static void bestOfAllRiver() {
     LoudMarket x = new LoudMarket();
     for (int cell = 0; cell < 80; cell++) {
@@ -282,7 +272,7 @@ public final class EdgesOfLooksTest {
     due("WORTHS there", x.best(1), 0);
   }
 
-  @Sentences.Asks(of = "Promise 24, Terms 4",
+  @Asks(of = "Promise 24, Terms 4",
       says = "BEST CELL: that (not RIVER) in which WORTHS of all are most together; of several the least.")
   static void bestOfSeveral() {
     LoudMarket x = new LoudMarket();
@@ -308,7 +298,7 @@ public final class EdgesOfLooksTest {
 
   // ---- promise 25
 
-  @Sentences.Asks(of = "Promise 25", says = "BESIDE. BEYOND: n 0 .. 20.")
+  @Asks(of = "Promise 25", says = "BESIDE. BEYOND: n 0 .. 20.")
   static void besideBeyond() {
     due("no WEEKS", going().beside(0, 0), 0);
     looks("beside(0, 0)", x -> x.beside(0, 0));
@@ -322,10 +312,10 @@ public final class EdgesOfLooksTest {
     due("no PLACES", new LoudMarket().beside(0, 0), BEYOND);
   }
 
-  @Sentences.Asks(of = "Promise 25, Terms 4",
+  @Asks(of = "Promise 25, Terms 4",
       says = "BESIDE for a PLACE by n: the CELL (any) in which, if it stood there, its PURSE AHEAD by n would be greatest; of several the least.")
   static void besideOfSeveral() {
-    LoudMarket x = Sentences.with(0, 79, 0);
+    LoudMarket x = with(0, 79, 0);
     due("THE MARKET's", x.beside(0, 1), 44);
     x.stand(0);
     due("the first", x.beside(0, 20), 0);
@@ -339,7 +329,7 @@ public final class EdgesOfLooksTest {
     x.place(0, 34, 0);
     due("any, where one is, too", x.beside(0, 20), 34);
     due("it stands where it stood", x.placeIs(0, 2), 79);
-    x = Sentences.with(500, 79, 9);
+    x = with(500, 79, 9);
     text(x, 1, "99");
     x.set(0, 5, 0);
     due("PURSES below 0, all alike", x.beside(0, 1), 0);
@@ -350,7 +340,7 @@ public final class EdgesOfLooksTest {
 
   // ---- promise 26
 
-  @Sentences.Asks(of = "Promise 26", says = "ROUND: what 0 TAIL, 1 LENGTH. BEYOND.")
+  @Asks(of = "Promise 26", says = "ROUND: what 0 TAIL, 1 LENGTH. BEYOND.")
   static void roundBeyond() {
     refused("round(-1)", x -> x.round(-1), BEYOND);
     refused("round(2)", x -> x.round(2), BEYOND);
@@ -362,21 +352,21 @@ public final class EdgesOfLooksTest {
 
   /** HOARSE is more by 1 in WEEKS of a TEXT, up to 99. */
   private static LoudMarket hoarser(String weeks, int hoarse) {
-    LoudMarket x = Sentences.with(500, 44, 0);
+    LoudMarket x = with(500, 44, 0);
     x.rule(1, 0);
     text(x, 0, weeks);
     x.set(0, 4, hoarse);
     return x;
   }
 
-  @Sentences.Asks(of = "Promise 26", says = "NONE: not within 200 WEEKS.")
+  @Asks(of = "Promise 26", says = "NONE: not within 200 WEEKS.")
   static void roundNotWithin() {
-    Sentences.refused(() -> hoarser("(w%2=0)*2", 0), "round(0)", x -> x.round(0), NONE);
-    Sentences.refused(() -> hoarser("(w%2=0)*2", 0), "round(1)", x -> x.round(1), NONE);
-    Sentences.refused(() -> hoarser("(w%2=0)*2", 0), "BEYOND ahead of NONE", x -> x.round(2), BEYOND);
+    refused(() -> hoarser("(w%2=0)*2", 0), "round(0)", x -> x.round(0), NONE);
+    refused(() -> hoarser("(w%2=0)*2", 0), "round(1)", x -> x.round(1), NONE);
+    refused(() -> hoarser("(w%2=0)*2", 0), "BEYOND ahead of NONE", x -> x.round(2), BEYOND);
   }
 
-  @Sentences.Asks(of = "Promise 26, Terms 4", says = "ROUND: the first WEEK (1 .. 200 from now)")
+  @Asks(of = "Promise 26, Terms 4", says = "ROUND: the first WEEK (1 .. 200 from now)")
   static void roundWithin() {
     due("TAIL behind 200", hoarser("(w%2=1)*2", 1).round(0), 196);
     due("LENGTH behind 200", hoarser("(w%2=1)*2", 1).round(1), 4);
@@ -386,15 +376,15 @@ public final class EdgesOfLooksTest {
     due("LENGTH at once", new LoudMarket().round(1), 4);
   }
 
-  @Sentences.Asks(of = "Promise 26, Terms 4",
+  @Asks(of = "Promise 26, Terms 4",
       says = "behind which CELL and all HOARSE are as they were behind an earlier one (0 on) of the same WEEKS' rest by 4: TAIL, LENGTH.")
   static void roundOfTheSameRest() {
-    LoudMarket x = Sentences.with(500, 44, 0);
+    LoudMarket x = with(500, 44, 0);
     text(x, 0, "(h=0)*98");
     x.rule(1, 10);
     due("each 5 WEEKS alike: LENGTH", x.round(1), 20);
     due("each 5 WEEKS alike: TAIL", x.round(0), 0);
-    x = Sentences.with(0, 0, 0);
+    x = with(0, 0, 0);
     for (int i = 1; i < 8; i++) {
       x.place(0, 0, 0);
     }
@@ -404,7 +394,7 @@ public final class EdgesOfLooksTest {
     x.set(7, 4, 0);
     x.set(0, 4, 8);
     due("HOARSE of the first", x.round(0), 8);
-    x = Sentences.with(500, 49, 0);
+    x = with(500, 49, 0);
     text(x, 0, "1");
     due("CELL alone", x.round(0), 5);
     due("LENGTH", x.round(1), 4);
@@ -414,7 +404,7 @@ public final class EdgesOfLooksTest {
 
   // ---- promise 27
 
-  @Sentences.Asks(of = "Promise 27", says = "FAIR SHARE: what 0 the difference, 1 who. BEYOND.")
+  @Asks(of = "Promise 27", says = "FAIR SHARE: what 0 the difference, 1 who. BEYOND.")
   static void shareBeyond() {
     refused("share(-1)", x -> x.share(-1), BEYOND);
     refused("share(2)", x -> x.share(2), BEYOND);
@@ -424,16 +414,16 @@ public final class EdgesOfLooksTest {
     looks("share(1)", x -> x.share(1));
   }
 
-  @Sentences.Asks(of = "Promise 27", says = "NONE: there are no PLACES.")
+  @Asks(of = "Promise 27", says = "NONE: there are no PLACES.")
   static void shareOfNone() {
-    Sentences.refused(Sentences::empty, "share(0)", x -> x.share(0), NONE);
-    Sentences.refused(Sentences::empty, "share(1)", x -> x.share(1), NONE);
-    Sentences.refused(Sentences::empty, "BEYOND ahead of NONE", x -> x.share(2), BEYOND);
+    refused(Sentences::empty, "share(0)", x -> x.share(0), NONE);
+    refused(Sentences::empty, "share(1)", x -> x.share(1), NONE);
+    refused(Sentences::empty, "BEYOND ahead of NONE", x -> x.share(2), BEYOND);
     due("one: the difference", going().share(0), 0);
     due("one: who", going().share(1), 0);
   }
 
-  @Sentences.Asks(of = "Promise 27, Terms 4",
+  @Asks(of = "Promise 27, Terms 4",
       says = "PURSES: the greatest less the least; who has the greatest (of several the least number).")
   static void shareOfSeveral() {
     LoudMarket x = new LoudMarket();
@@ -454,7 +444,13 @@ public final class EdgesOfLooksTest {
     x.weeks(1);
     due("the last", x.share(1), 7);
     due("PURSES below 0", x.share(0), 60);
-    x = Sentences.with(500, 44, 9);
+    x = new LoudMarket();
+    x.place(0, 43, 0);
+    x.place(0, 0, 0);
+    x.place(0, 44, 0);
+    x.weeks(1);
+    due("greatest of the last, least of the second", x.share(0), 20 - 4);
+    x = with(500, 44, 9);
     x.place(500, 44, 8);
     x.set(0, 5, 0);
     x.set(1, 5, 0);

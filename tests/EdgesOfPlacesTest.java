@@ -1,41 +1,26 @@
 // Promises 1 to 10: each sentence that names an edge of the land, of places and
 // of what they shout has a test of its own.
-public final class EdgesOfPlacesTest {
-  private static final int BEYOND = Sentences.BEYOND;
-  private static final int STATE = Sentences.STATE;
-  private static final int FULL = Sentences.FULL;
-  private static final int KIND = Sentences.KIND;
-  private static final int MIN = Sentences.MIN;
-  private static final int MAX = Sentences.MAX;
-
+public final class EdgesOfPlacesTest extends Sentences {
   public static void main(String[] args) throws Exception {
-    Sentences.run(EdgesOfPlacesTest.class);
-  }
-
-  private static void due(String call, long got, long want) {
-    Sentences.due(call, got, want);
-  }
-
-  private static void refused(String call, Sentences.Act act, int want) {
-    Sentences.refused(call, act, want);
+    run(EdgesOfPlacesTest.class);
   }
 
   /** What a PLACE shouts, THE MARKET being in 44. */
   private static int shout(int km, int cell, int voice, int hoarse) {
-    LoudMarket x = Sentences.with(km, cell, voice);
+    LoudMarket x = with(km, cell, voice);
     x.set(0, 4, hoarse);
     return x.placeIs(0, 8);
   }
 
   private static int told(String text) {
-    LoudMarket x = Sentences.with(500, 47, 60);
-    due("text " + text, Sentences.text(x, 0, text), 1);
+    LoudMarket x = with(500, 47, 60);
+    due("text " + text, text(x, 0, text), 1);
     return x.placeIs(0, 8);
   }
 
   // ---- promise 1
 
-  @Sentences.Asks(of = "Promise 1", says = "All as at first; no PLACES.")
+  @Asks(of = "Promise 1", says = "All as at first; no PLACES.")
   static void noPlacesAtFirst() {
     LoudMarket x = new LoudMarket();
     due("count(0)", x.count(0), 0);
@@ -43,7 +28,7 @@ public final class EdgesOfPlacesTest {
     due("the first that comes", x.place(0, 0, 0), 0);
   }
 
-  @Sentences.Asks(of = "Promise 1, Terms 1", says = "each is GROUND (0; all at first)")
+  @Asks(of = "Promise 1, Terms 1", says = "each is GROUND (0; all at first)")
   static void allIsGroundAtFirst() {
     LoudMarket x = new LoudMarket();
     due("rivers", x.count(3), 0);
@@ -52,38 +37,38 @@ public final class EdgesOfPlacesTest {
     }
   }
 
-  @Sentences.Asks(of = "Promise 1, Terms 1", says = "THE MARKET stands in a CELL (44 at first).")
+  @Asks(of = "Promise 1, Terms 1", says = "THE MARKET stands in a CELL (44 at first).")
   static void theMarketAtFirst() {
     due("count(1)", new LoudMarket().count(1), 44);
     due("stand(0)", new LoudMarket().stand(0), 44);
   }
 
-  @Sentences.Asks(of = "Promise 1, Terms 1", says = "HOARSE (0 .. 99; 0 at first)")
+  @Asks(of = "Promise 1, Terms 1", says = "HOARSE (0 .. 99; 0 at first)")
   static void noPlaceIsHoarseAtFirst() {
-    due("placeIs(0, 4)", Sentences.with(199, 47, 99).placeIs(0, 4), 0);
+    due("placeIs(0, 4)", with(199, 47, 99).placeIs(0, 4), 0);
   }
 
-  @Sentences.Asks(of = "Promise 1, Terms 1", says = "how rich THE MARKET makes it; 20 at first")
+  @Asks(of = "Promise 1, Terms 1", says = "how rich THE MARKET makes it; 20 at first")
   static void goodAtFirst() {
-    due("placeIs(0, 5)", Sentences.with(199, 47, 99).placeIs(0, 5), 20);
+    due("placeIs(0, 5)", with(199, 47, 99).placeIs(0, 5), 20);
   }
 
-  @Sentences.Asks(of = "Promise 1, Terms 1",
+  @Asks(of = "Promise 1, Terms 1",
       says = "PURSE (held within -999999 .. 999999; 0 at first), HUSHED (1) or not (0; at first).")
   static void purseAndHushedAtFirst() {
-    LoudMarket x = Sentences.with(199, 47, 99);
+    LoudMarket x = with(199, 47, 99);
     due("PURSE", x.placeIs(0, 6), 0);
     due("HUSHED", x.placeIs(0, 7), 0);
   }
 
-  @Sentences.Asks(of = "Promise 1, Terms 3", says = "1 REST (0 .. 99 off each HOARSE a WEEK, 0 at least; 3 at first)")
+  @Asks(of = "Promise 1, Terms 3", says = "1 REST (0 .. 99 off each HOARSE a WEEK, 0 at least; 3 at first)")
   static void theLawAtFirst() {
     due("rule(1, 0)", new LoudMarket().rule(1, 0), 3);
     due("rule(0, 0)", new LoudMarket().rule(0, 0), 0);
     due("rule(2, 0)", new LoudMarket().rule(2, 0), 0);
   }
 
-  @Sentences.Asks(of = "Promise 1, Terms 3", says = "z is told (1 at first)")
+  @Asks(of = "Promise 1, Terms 3", says = "z is told (1 at first)")
   static void zAtFirst() {
     due("count(7)", new LoudMarket().count(7), 1);
     due("seed(0)", new LoudMarket().seed(0), 1);
@@ -91,7 +76,7 @@ public final class EdgesOfPlacesTest {
 
   // ---- promise 2
 
-  @Sentences.Asks(of = "Promise 2", says = "A CELL becomes GROUND (0), RIVER (1), HILL (2): what it was.")
+  @Asks(of = "Promise 2", says = "A CELL becomes GROUND (0), RIVER (1), HILL (2): what it was.")
   static void eachGround() {
     LoudMarket x = new LoudMarket();
     for (int cell : new int[] {0, 9, 70, 79}) {
@@ -103,7 +88,7 @@ public final class EdgesOfPlacesTest {
     }
   }
 
-  @Sentences.Asks(of = "Promise 2", says = "BEYOND: CELL 0 .. 79.")
+  @Asks(of = "Promise 2", says = "BEYOND: CELL 0 .. 79.")
   static void groundBeyondTheLand() {
     due("the first CELL", new LoudMarket().ground(0, 2), 0);
     due("the last CELL", new LoudMarket().ground(79, 2), 0);
@@ -113,7 +98,7 @@ public final class EdgesOfPlacesTest {
     refused("ground(MAX, 0)", x -> x.ground(MAX, 0), BEYOND);
   }
 
-  @Sentences.Asks(of = "Promise 2, Terms 1",
+  @Asks(of = "Promise 2, Terms 1",
       says = "RIVER (1: THE MARKET can't stand there) or HILL (2).")
   static void noOtherGround() {
     refused("ground(5, -1)", x -> x.ground(5, -1), BEYOND);
@@ -122,7 +107,7 @@ public final class EdgesOfPlacesTest {
     refused("BEYOND ahead of STATE", x -> x.ground(x.count(1), 3), BEYOND);
   }
 
-  @Sentences.Asks(of = "Promise 2", says = "STATE: THE MARKET stands there, and it would be RIVER.")
+  @Asks(of = "Promise 2", says = "STATE: THE MARKET stands there, and it would be RIVER.")
   static void noRiverUnderTheMarket() {
     refused("ground(THE MARKET's, 1)", x -> x.ground(x.count(1), 1), STATE);
     LoudMarket x = new LoudMarket();
@@ -135,7 +120,7 @@ public final class EdgesOfPlacesTest {
 
   // ---- promise 3
 
-  @Sentences.Asks(of = "Promise 3", says = "THE MARKET stands in a CELL: where it stood. BEYOND.")
+  @Asks(of = "Promise 3", says = "THE MARKET stands in a CELL: where it stood. BEYOND.")
   static void standBeyondTheLand() {
     LoudMarket x = new LoudMarket();
     due("the first CELL", x.stand(0), 44);
@@ -147,7 +132,7 @@ public final class EdgesOfPlacesTest {
     refused("stand(MAX)", y -> y.stand(MAX), BEYOND);
   }
 
-  @Sentences.Asks(of = "Promise 3", says = "STATE: it is RIVER.")
+  @Asks(of = "Promise 3", says = "STATE: it is RIVER.")
   static void noStandInARiver() {
     refused("stand(3), RIVER", x -> x.stand(3), STATE);
     LoudMarket x = new LoudMarket();
@@ -157,7 +142,7 @@ public final class EdgesOfPlacesTest {
 
   // ---- promise 4
 
-  @Sentences.Asks(of = "Promise 4", says = "THE LAW (what 0 .. 2) becomes v: what it was. BEYOND.")
+  @Asks(of = "Promise 4", says = "THE LAW (what 0 .. 2) becomes v: what it was. BEYOND.")
   static void noOtherLaw() {
     refused("rule(-1, 0)", x -> x.rule(-1, 0), BEYOND);
     refused("rule(3, 0)", x -> x.rule(3, 0), BEYOND);
@@ -165,7 +150,7 @@ public final class EdgesOfPlacesTest {
     refused("rule(MAX, 0)", x -> x.rule(MAX, 0), BEYOND);
   }
 
-  @Sentences.Asks(of = "Promise 4, Terms 3", says = "or none shouts; 1: BY PULLS)")
+  @Asks(of = "Promise 4, Terms 3", says = "or none shouts; 1: BY PULLS)")
   static void loudestOrByPulls() {
     LoudMarket x = new LoudMarket();
     due("rule(0, 1)", x.rule(0, 1), 0);
@@ -174,7 +159,7 @@ public final class EdgesOfPlacesTest {
     refused("rule(0, 2)", y -> y.rule(0, 2), BEYOND);
   }
 
-  @Sentences.Asks(of = "Promise 4, Terms 3", says = "1 REST (0 .. 99")
+  @Asks(of = "Promise 4, Terms 3", says = "1 REST (0 .. 99")
   static void restWithin() {
     LoudMarket x = new LoudMarket();
     due("rule(1, 99)", x.rule(1, 99), 3);
@@ -185,7 +170,7 @@ public final class EdgesOfPlacesTest {
     refused("rule(1, MIN)", y -> y.rule(1, MIN), BEYOND);
   }
 
-  @Sentences.Asks(of = "Promise 4, Terms 3", says = "2 HILLS (0, or 1:")
+  @Asks(of = "Promise 4, Terms 3", says = "2 HILLS (0, or 1:")
   static void hillsOrNot() {
     LoudMarket x = new LoudMarket();
     due("rule(2, 1)", x.rule(2, 1), 0);
@@ -196,7 +181,7 @@ public final class EdgesOfPlacesTest {
 
   // ---- promise 5
 
-  @Sentences.Asks(of = "Promise 5, Terms 1",
+  @Asks(of = "Promise 5, Terms 1",
       says = "THE LAND has CELLS of 10 columns (0 .. 9) and 8 rows (0 .. 7), told as 10 times the row and the column")
   static void cornersOfTheLand() {
     LoudMarket x = new LoudMarket();
@@ -207,7 +192,7 @@ public final class EdgesOfPlacesTest {
     due("numbers side by side, rows apart", x.far(9, 10), 10);
   }
 
-  @Sentences.Asks(of = "Promise 5, Terms 1",
+  @Asks(of = "Promise 5, Terms 1",
       says = "FAR of two CELLS: the difference of their columns and that of their rows, both without sign, together.")
   static void farWithoutSign() {
     LoudMarket x = new LoudMarket();
@@ -218,7 +203,7 @@ public final class EdgesOfPlacesTest {
     due("up and left", x.far(45, 22), 5);
   }
 
-  @Sentences.Asks(of = "Promise 5", says = "FAR of two CELLS. BEYOND.")
+  @Asks(of = "Promise 5", says = "FAR of two CELLS. BEYOND.")
   static void farBeyondTheLand() {
     refused("far(-1, 0)", x -> x.far(-1, 0), BEYOND);
     refused("far(80, 0)", x -> x.far(80, 0), BEYOND);
@@ -229,7 +214,7 @@ public final class EdgesOfPlacesTest {
 
   // ---- promise 6
 
-  @Sentences.Asks(of = "Promise 6, Terms 1", says = "PLACES 0, 1, .. (at most 8)")
+  @Asks(of = "Promise 6, Terms 1", says = "PLACES 0, 1, .. (at most 8)")
   static void eightPlaces() {
     LoudMarket x = new LoudMarket();
     for (int i = 0; i < 8; i++) {
@@ -242,7 +227,7 @@ public final class EdgesOfPlacesTest {
     }
   }
 
-  @Sentences.Asks(of = "Promise 6", says = "A PLACE: its number. km: 100 times the KIND, and m. BEYOND.")
+  @Asks(of = "Promise 6", says = "A PLACE: its number. km: 100 times the KIND, and m. BEYOND.")
   static void placeBeyond() {
     LoudMarket x = new LoudMarket();
     due("the least", x.place(0, 0, 0), 0);
@@ -262,15 +247,15 @@ public final class EdgesOfPlacesTest {
     refused("place(100, 0, 100)", y -> y.place(100, 0, 100), BEYOND);
   }
 
-  @Sentences.Asks(of = "Promise 6", says = "BEYOND. FULL.")
+  @Asks(of = "Promise 6", says = "BEYOND. FULL.")
   static void placeFull() {
-    Sentences.refused(Sentences::crowded, "a ninth", x -> x.place(0, 0, 0), FULL);
-    Sentences.refused(Sentences::crowded, "BEYOND ahead of FULL", x -> x.place(700, 0, 0), BEYOND);
-    Sentences.refused(Sentences::crowded, "BEYOND ahead of FULL", x -> x.place(0, 80, 0), BEYOND);
-    Sentences.refused(Sentences::crowded, "BEYOND ahead of FULL", x -> x.place(0, 0, 100), BEYOND);
+    refused(Sentences::crowded, "a ninth", x -> x.place(0, 0, 0), FULL);
+    refused(Sentences::crowded, "BEYOND ahead of FULL", x -> x.place(700, 0, 0), BEYOND);
+    refused(Sentences::crowded, "BEYOND ahead of FULL", x -> x.place(0, 80, 0), BEYOND);
+    refused(Sentences::crowded, "BEYOND ahead of FULL", x -> x.place(0, 0, 100), BEYOND);
   }
 
-  @Sentences.Asks(of = "Promise 6, Terms 1", says = "each in a CELL (any)")
+  @Asks(of = "Promise 6, Terms 1", says = "each in a CELL (any)")
   static void placesInAnyCell() {
     LoudMarket x = new LoudMarket();
     x.ground(3, 1);
@@ -283,23 +268,23 @@ public final class EdgesOfPlacesTest {
 
   // ---- promise 7
 
-  @Sentences.Asks(of = "Promise 7",
+  @Asks(of = "Promise 7",
       says = "Of a PLACE: 0 KIND, 1 m, 2 CELL, 3 VOICE, 4 HOARSE, 5 GOOD, 6 PURSE, 7 HUSHED, 8 SHOUT, 9 WORTH of THE MARKET where it is. BEYOND.")
   static void placeIsBeyond() {
     int[] is = {1, 23, 46, 31, 0, 20, 0, 0, 31, 16};
     for (int what = 0; what < 10; what++) {
-      due("placeIs(0, " + what + ")", Sentences.with(123, 46, 31).placeIs(0, what), is[what]);
+      due("placeIs(0, " + what + ")", with(123, 46, 31).placeIs(0, what), is[what]);
     }
     refused("placeIs(-1, 0)", x -> x.placeIs(-1, 0), BEYOND);
     refused("placeIs(7, 0)", x -> x.placeIs(7, 0), BEYOND);
     refused("placeIs(0, -1)", x -> x.placeIs(0, -1), BEYOND);
     refused("placeIs(0, 10)", x -> x.placeIs(0, 10), BEYOND);
     refused("placeIs(MAX, MIN)", x -> x.placeIs(MAX, MIN), BEYOND);
-    Sentences.refused(Sentences::crowded, "placeIs(8, 0)", x -> x.placeIs(8, 0), BEYOND);
+    refused(Sentences::crowded, "placeIs(8, 0)", x -> x.placeIs(8, 0), BEYOND);
     due("no PLACE", new LoudMarket().placeIs(0, 8), BEYOND);
   }
 
-  @Sentences.Asks(of = "Promise 7, Terms 3",
+  @Asks(of = "Promise 7, Terms 3",
       says = "SHOUT of a PLACE (held within 0 .. 99 at the end; 0 if it is HUSHED)")
   static void shoutHeld() {
     due("below", told("0-1"), 0);
@@ -316,26 +301,26 @@ public final class EdgesOfPlacesTest {
     due("held at the end alone, above", x.placeIs(1, 8), 99);
   }
 
-  @Sentences.Asks(of = "Promise 7, Terms 3", says = "0 if it is HUSHED")
+  @Asks(of = "Promise 7, Terms 3", says = "0 if it is HUSHED")
   static void hushedShoutsNothing() {
     for (int kind = 0; kind < 7; kind++) {
-      LoudMarket x = Sentences.with(100 * kind, 46, 6);
+      LoudMarket x = with(100 * kind, 46, 6);
       due("KIND " + kind, x.placeIs(0, 8), kind == 0 ? 0 : 6);
       x.set(0, 7, 1);
       due("KIND " + kind + ", HUSHED", x.placeIs(0, 8), 0);
     }
-    LoudMarket x = Sentences.with(500, 46, 6);
+    LoudMarket x = with(500, 46, 6);
     x.set(0, 7, 1);
-    Sentences.text(x, 0, "5");
+    text(x, 0, "5");
     due("HUSHED by a TEXT", x.placeIs(0, 8), 0);
   }
 
-  @Sentences.Asks(of = "Promise 7, Terms 3", says = "PLACE: 0.")
+  @Asks(of = "Promise 7, Terms 3", says = "PLACE: 0.")
   static void aPlaceShoutsNothing() {
     due("VOICE 99", shout(99, 47, 99, 0), 0);
   }
 
-  @Sentences.Asks(of = "Promise 7, Terms 3", says = "LOUD: VOICE less HOARSE, 0 if FAR of THE MARKET is 0.")
+  @Asks(of = "Promise 7, Terms 3", says = "LOUD: VOICE less HOARSE, 0 if FAR of THE MARKET is 0.")
   static void loud() {
     due("1 FAR", shout(100, 45, 60, 9), 51);
     due("1 FAR up", shout(100, 34, 60, 9), 51);
@@ -347,7 +332,7 @@ public final class EdgesOfPlacesTest {
     due("all VOICE", shout(100, 45, 99, 0), 99);
   }
 
-  @Sentences.Asks(of = "Promise 7, Terms 3",
+  @Asks(of = "Promise 7, Terms 3",
       says = "HOLD: VOICE less HOARSE, if FAR is 3 or less, else 0 (0 FAR, too).")
   static void hold() {
     due("3 FAR", shout(200, 47, 60, 9), 51);
@@ -358,7 +343,7 @@ public final class EdgesOfPlacesTest {
     due("more HOARSE", shout(200, 44, 9, 60), 0);
   }
 
-  @Sentences.Asks(of = "Promise 7, Terms 3",
+  @Asks(of = "Promise 7, Terms 3",
       says = "LEAGUE: as LOUD, and m for each other LEAGUE (not HUSHED) whose CELL is 4 or less FAR from its own.")
   static void league() {
     LoudMarket x = new LoudMarket();
@@ -381,7 +366,7 @@ public final class EdgesOfPlacesTest {
     due("as LOUD at 0 FAR: 0, and m for each of three", x.placeIs(0, 8), 21);
   }
 
-  @Sentences.Asks(of = "Promise 7, Terms 3",
+  @Asks(of = "Promise 7, Terms 3",
       says = "LATE: as LOUD in WEEKS that are m more than a multiple of 4 (m's rest by 4), else 0.")
   static void late() {
     for (int m : new int[] {0, 1, 2, 3, 4, 7, 98, 99}) {
@@ -396,7 +381,7 @@ public final class EdgesOfPlacesTest {
     due("as LOUD, HOARSE", shout(404, 45, 20, 30), 0);
   }
 
-  @Sentences.Asks(of = "Promise 7, Terms 2", says = "without a TEXT v - h.")
+  @Asks(of = "Promise 7, Terms 2", says = "without a TEXT v - h.")
   static void toldNothing() {
     due("v - h", shout(500, 47, 60, 9), 51);
     due("at 0 FAR, too", shout(500, 44, 60, 9), 51);
@@ -404,12 +389,12 @@ public final class EdgesOfPlacesTest {
   }
 
   private static LoudMarket ahead(int cell, int voice, String cost) {
-    LoudMarket x = Sentences.with(600, cell, voice);
-    Sentences.text(x, 1, cost);
+    LoudMarket x = with(600, cell, voice);
+    text(x, 1, cost);
     return x;
   }
 
-  @Sentences.Asks(of = "Promise 7, Terms 3",
+  @Asks(of = "Promise 7, Terms 3",
       says = "is more than where it is by COST of as much as LOUD (held within 0 .. 99), or more; else 0.")
   static void aheadByCost() {
     due("more by COST", ahead(47, 9, "2").placeIs(0, 8), 9);
@@ -430,16 +415,16 @@ public final class EdgesOfPlacesTest {
     due("COST of its GOOD, more", x.placeIs(0, 8), 0);
   }
 
-  @Sentences.Asks(of = "Promise 7, Terms 3",
+  @Asks(of = "Promise 7, Terms 3",
       says = "AHEAD: as LOUD, if WORTH where THE MARKET would be, going for it (below)")
   static void aheadByWorth() {
     LoudMarket x = ahead(47, 9, "1");
     x.ground(45, 1);
     due("it would stay for a RIVER", x.placeIs(0, 8), 0);
-    Sentences.text(x, 1, "0");
+    text(x, 1, "0");
     due("it would stay, that costs nothing", x.placeIs(0, 8), 9);
     x.set(0, 2, 57);
-    Sentences.text(x, 1, "2");
+    text(x, 1, "2");
     due("it would go the other way", x.placeIs(0, 8), 9);
     x = ahead(45, 9, "2");
     due("it would come to it", x.placeIs(0, 8), 9);
@@ -450,7 +435,7 @@ public final class EdgesOfPlacesTest {
     x = ahead(47, 9, "0");
     x.set(0, 5, 4);
     due("WORTH is 0 here and there", x.placeIs(0, 8), 9);
-    Sentences.text(x, 1, "1");
+    text(x, 1, "1");
     due("WORTH is 0 here and there, it costs 1", x.placeIs(0, 8), 0);
     x.set(0, 5, 5);
     due("WORTH 0 here, 1 there", x.placeIs(0, 8), 9);
@@ -458,10 +443,10 @@ public final class EdgesOfPlacesTest {
 
   // ---- promise 8
 
-  @Sentences.Asks(of = "Promise 8", says = "A PLACE as one of a KIND: m. BEYOND.")
+  @Asks(of = "Promise 8", says = "A PLACE as one of a KIND: m. BEYOND.")
   static void asBeyond() {
-    due("m 0", Sentences.with(600, 0, 0).as(0, 6), 0);
-    due("m 99", Sentences.with(699, 0, 0).as(0, 0), 99);
+    due("m 0", with(600, 0, 0).as(0, 6), 0);
+    due("m 99", with(699, 0, 0).as(0, 0), 99);
     refused("as(-1, 0)", x -> x.as(-1, 0), BEYOND);
     refused("as(7, 0)", x -> x.as(7, 0), BEYOND);
     refused("as(0, -1)", x -> x.as(0, -1), BEYOND);
@@ -470,13 +455,13 @@ public final class EdgesOfPlacesTest {
     refused("BEYOND ahead of KIND", x -> x.as(7, 2), BEYOND);
   }
 
-  @Sentences.Asks(of = "Promise 8", says = "KIND: it is not of that KIND, nor of one under it.")
+  @Asks(of = "Promise 8", says = "KIND: it is not of that KIND, nor of one under it.")
   static void asAnotherKind() {
     int[] above = {-1, 0, 1, 1, 1, 0, 1};
     for (int kind = 0; kind < 7; kind++) {
       for (int asked = 0; asked < 7; asked++) {
         boolean is = kind == asked || asked == 0 || asked == above[kind];
-        due(kind + " as " + asked, Sentences.with(100 * kind + 23, 0, 0).as(0, asked), is ? 23 : KIND);
+        due(kind + " as " + asked, with(100 * kind + 23, 0, 0).as(0, asked), is ? 23 : KIND);
       }
     }
     refused("as(0, 2)", x -> x.as(0, 2), KIND);
@@ -487,7 +472,7 @@ public final class EdgesOfPlacesTest {
 
   /** What takes 0 .. most, and nothing beyond. */
   private static void within(int what, int most) {
-    LoudMarket x = Sentences.with(123, 46, 31);
+    LoudMarket x = with(123, 46, 31);
     int was = x.placeIs(0, what);
     due("set(0, " + what + ", " + most + ")", x.set(0, what, most), was);
     due("it is", x.placeIs(0, what), most);
@@ -499,44 +484,44 @@ public final class EdgesOfPlacesTest {
     refused("set(0, " + what + ", MAX)", y -> y.set(0, what, MAX), BEYOND);
   }
 
-  @Sentences.Asks(of = "Promise 9, Terms 1",
+  @Asks(of = "Promise 9, Terms 1",
       says = "of KINDS: 0 PLACE, 1 LOUD under PLACE, 2 HOLD under LOUD, 3 LEAGUE under LOUD, 4 LATE under LOUD, 5 TOLD under PLACE, 6 AHEAD under LOUD")
   static void kindWithin() {
     within(0, 6);
   }
 
-  @Sentences.Asks(of = "Promise 9, Terms 1", says = "with a number m (0 .. 99)")
+  @Asks(of = "Promise 9, Terms 1", says = "with a number m (0 .. 99)")
   static void mWithin() {
     within(1, 99);
   }
 
-  @Sentences.Asks(of = "Promise 9, Terms 1", says = "THE LAND has CELLS of 10 columns (0 .. 9) and 8 rows (0 .. 7)")
+  @Asks(of = "Promise 9, Terms 1", says = "THE LAND has CELLS of 10 columns (0 .. 9) and 8 rows (0 .. 7)")
   static void cellWithin() {
     within(2, 79);
-    due("in a RIVER", Sentences.busy().set(0, 2, 3), 47);
+    due("in a RIVER", busy().set(0, 2, 3), 47);
   }
 
-  @Sentences.Asks(of = "Promise 9, Terms 1", says = "VOICE (0 .. 99)")
+  @Asks(of = "Promise 9, Terms 1", says = "VOICE (0 .. 99)")
   static void voiceWithin() {
     within(3, 99);
   }
 
-  @Sentences.Asks(of = "Promise 9, Terms 1", says = "HOARSE (0 .. 99;")
+  @Asks(of = "Promise 9, Terms 1", says = "HOARSE (0 .. 99;")
   static void hoarseWithin() {
     within(4, 99);
   }
 
-  @Sentences.Asks(of = "Promise 9, Terms 1", says = "GOOD (0 .. 99;")
+  @Asks(of = "Promise 9, Terms 1", says = "GOOD (0 .. 99;")
   static void goodWithin() {
     within(5, 99);
   }
 
-  @Sentences.Asks(of = "Promise 9, Terms 1", says = "HUSHED (1) or not (0; at first)")
+  @Asks(of = "Promise 9, Terms 1", says = "HUSHED (1) or not (0; at first)")
   static void hushedWithin() {
     within(7, 1);
   }
 
-  @Sentences.Asks(of = "Promise 9",
+  @Asks(of = "Promise 9",
       says = "KIND (what 0), m (1), CELL (2), VOICE (3), HOARSE (4), GOOD (5), HUSHED (7) of a PLACE becomes v: what it was. BEYOND.")
   static void setBeyond() {
     refused("set(0, 6, 0), PURSE", x -> x.set(0, 6, 0), BEYOND);
@@ -553,10 +538,10 @@ public final class EdgesOfPlacesTest {
 
   // ---- promise 10
 
-  @Sentences.Asks(of = "Promise 10", says = "WORTH of THE MARKET in a CELL to a PLACE. BEYOND.")
+  @Asks(of = "Promise 10", says = "WORTH of THE MARKET in a CELL to a PLACE. BEYOND.")
   static void worthBeyond() {
-    due("the first CELL", Sentences.with(0, 4, 0).worth(0, 0), 12);
-    due("the last CELL", Sentences.with(0, 77, 0).worth(0, 79), 16);
+    due("the first CELL", with(0, 4, 0).worth(0, 0), 12);
+    due("the last CELL", with(0, 77, 0).worth(0, 79), 16);
     refused("worth(0, -1)", x -> x.worth(0, -1), BEYOND);
     refused("worth(0, 80)", x -> x.worth(0, 80), BEYOND);
     refused("worth(-1, 0)", x -> x.worth(-1, 0), BEYOND);
@@ -564,10 +549,10 @@ public final class EdgesOfPlacesTest {
     refused("worth(MAX, MIN)", x -> x.worth(MAX, MIN), BEYOND);
   }
 
-  @Sentences.Asks(of = "Promise 10, Terms 1",
+  @Asks(of = "Promise 10, Terms 1",
       says = "WORTH of THE MARKET in a CELL to a PLACE: GOOD less twice FAR of both, 0 at least;")
   static void worthAtLeast() {
-    LoudMarket x = Sentences.with(0, 0, 0);
+    LoudMarket x = with(0, 0, 0);
     due("GOOD 20, 9 FAR", x.worth(0, 9), 2);
     due("GOOD 20, 10 FAR", x.worth(0, 19), 0);
     due("GOOD 20, 11 FAR", x.worth(0, 29), 0);
@@ -584,10 +569,10 @@ public final class EdgesOfPlacesTest {
     due("in a RIVER, too", x.worth(0, 9), 81);
   }
 
-  @Sentences.Asks(of = "Promise 10, Terms 1",
+  @Asks(of = "Promise 10, Terms 1",
       says = "0 if the PLACE stands in that CELL itself and its m is 50 or more (it is too loud there).")
   static void tooLoudThere() {
-    LoudMarket x = Sentences.with(49, 44, 0);
+    LoudMarket x = with(49, 44, 0);
     due("m 49", x.worth(0, 44), 20);
     due("m 49, where it is", x.placeIs(0, 9), 20);
     x.set(0, 1, 50);

@@ -1,25 +1,8 @@
 // Promises 28 to 40: each sentence that names an edge of voices, sheets, images
 // and of what is told has a test of its own.
-public final class EdgesOfSheetsTest {
-  private static final int BEYOND = Sentences.BEYOND;
-  private static final int NONE = Sentences.NONE;
-  private static final int STATE = Sentences.STATE;
-  private static final int FULL = Sentences.FULL;
-  private static final int KIND = Sentences.KIND;
-  private static final int PARTED = Sentences.PARTED;
-  private static final int MIN = Sentences.MIN;
-  private static final int MAX = Sentences.MAX;
-
+public final class EdgesOfSheetsTest extends Sentences {
   public static void main(String[] args) throws Exception {
-    Sentences.run(EdgesOfSheetsTest.class);
-  }
-
-  private static void due(String call, long got, long want) {
-    Sentences.due(call, got, want);
-  }
-
-  private static void refused(String call, Sentences.Act act, int want) {
-    Sentences.refused(call, act, want);
+    run(EdgesOfSheetsTest.class);
   }
 
   /** As many PLACES as asked for, the last of them of this KIND and m. */
@@ -60,7 +43,7 @@ public final class EdgesOfSheetsTest {
 
   // ---- promise 28
 
-  @Sentences.Asks(of = "Promise 28", says = "A VOICE of a PLACE. BEYOND. PARTED.")
+  @Asks(of = "Promise 28", says = "A VOICE of a PLACE. BEYOND. PARTED.")
   static void voiceBeyond() {
     refused("voice(-1, 0, 0)", x -> x.voice(-1, 0, 0), BEYOND);
     refused("voice(7, 0, 0)", x -> x.voice(7, 0, 0), BEYOND);
@@ -73,7 +56,7 @@ public final class EdgesOfSheetsTest {
     due("the last of both", speaker(50, 7).voice(7, 3, 86), 2);
   }
 
-  @Sentences.Asks(of = "Promise 28, Terms 5",
+  @Asks(of = "Promise 28, Terms 5",
       says = "cut (PARTED if that is 0; that is all that voice() answers then).")
   static void voiceParted() {
     for (int kind = 0; kind < 7; kind++) {
@@ -83,10 +66,10 @@ public final class EdgesOfSheetsTest {
         due("pays of KIND " + kind + " by 0", x.voice(number, 3, 0), PARTED);
         due("counted", x.told(6), 2);
         for (int voice = 0; voice < 3; voice++) {
-          Sentences.must(x.voice(number, voice, 9) > Sentences.LOW, "only pays is PARTED");
+          must(x.voice(number, voice, 9) > LOW, "only pays is PARTED");
         }
         x.set(number, 1, number + 1);
-        Sentences.must(x.voice(number, 3, 9) > Sentences.LOW, "m one more: not PARTED");
+        must(x.voice(number, 3, 9) > LOW, "m one more: not PARTED");
       }
     }
     LoudMarket x = speaker(9, 0);
@@ -94,7 +77,7 @@ public final class EdgesOfSheetsTest {
     due("0 parted by 9", x.voice(0, 3, 0), 0);
   }
 
-  @Sentences.Asks(of = "Promise 28, Terms 5", says = "13 pays: x by (m - k), cut")
+  @Asks(of = "Promise 28, Terms 5", says = "13 pays: x by (m - k), cut")
   static void paysCut() {
     LoudMarket x = speaker(2, 0);
     due("7 by 2", x.voice(0, 3, 7), 3);
@@ -107,7 +90,7 @@ public final class EdgesOfSheetsTest {
     due("96 by 97", x.voice(2, 3, 96), 0);
   }
 
-  @Sentences.Asks(of = "Promise 28, Terms 5",
+  @Asks(of = "Promise 28, Terms 5",
       says = "VOICES of a PLACE, with a number x (ints that wrap);")
   static void voicesWrap() {
     LoudMarket x = speaker(0, 1);
@@ -128,7 +111,7 @@ public final class EdgesOfSheetsTest {
     due("no ERROR", x.told(1), 0);
   }
 
-  @Sentences.Asks(of = "Promise 28, Terms 5", says = "40 rests: super.rests(x / 2).")
+  @Asks(of = "Promise 28, Terms 5", says = "40 rests: super.rests(x / 2).")
   static void halvesCut() {
     LoudMarket x = speaker(300, 0);
     due("x 7", x.voice(0, 2, 7), -2);
@@ -138,7 +121,7 @@ public final class EdgesOfSheetsTest {
     due("x 1", x.voice(0, 2, 1), -8);
   }
 
-  @Sentences.Asks(of = "Promise 28, Terms 5",
+  @Asks(of = "Promise 28, Terms 5",
       says = "calls(..) is the BODY of its KIND, or of the next KIND above that has one;")
   static void bodyOfTheNextKindAbove() {
     int[][] first = {
@@ -156,30 +139,30 @@ public final class EdgesOfSheetsTest {
     }
   }
 
-  @Sentences.Asks(of = "Promise 28", says = "A VOICE of a PLACE.")
+  @Asks(of = "Promise 28", says = "A VOICE of a PLACE.")
   static void numbersThatLookLikeErrors() {
     LoudMarket x = speaker(0, 0);
     for (int k = 1; k <= 6; k++) {
-      due("x + k", x.voice(0, 0, Sentences.LOW - k), Sentences.LOW - k);
+      due("x + k", x.voice(0, 0, LOW - k), LOW - k);
       due("no ERROR " + k, x.told(k), 0);
     }
   }
 
   // ---- promise 29
 
-  @Sentences.Asks(of = "Promise 29", says = "THE TRACE's i-th. NONE: there is none such.")
+  @Asks(of = "Promise 29", says = "THE TRACE's i-th. NONE: there is none such.")
   static void bodyNone() {
-    Sentences.refused(Sentences::empty, "body(0) without a voice()", x -> x.body(0), NONE);
+    refused(Sentences::empty, "body(0) without a voice()", x -> x.body(0), NONE);
     refused("body(12)", x -> x.body(12), NONE);
     refused("body(-1)", x -> x.body(-1), NONE);
     refused("body(30)", x -> x.body(30), NONE);
     refused("body(MIN)", x -> x.body(MIN), NONE);
     refused("body(MAX)", x -> x.body(MAX), NONE);
-    due("the first", Sentences.busy().body(0), 71);
-    due("the last", Sentences.busy().body(11), 10);
+    due("the first", busy().body(0), 71);
+    due("the last", busy().body(11), 10);
   }
 
-  @Sentences.Asks(of = "Promise 29, Terms 5",
+  @Asks(of = "Promise 29, Terms 5",
       says = "THE TRACE: the numbers of BODIES of the latest voice(), as they began (what stands left is worked out first), the first 30.")
   static void traceOfTheLatest() {
     LoudMarket x = speaker(610, 0);
@@ -196,7 +179,7 @@ public final class EdgesOfSheetsTest {
     trace("the shortest", x, 10);
   }
 
-  @Sentences.Asks(of = "Promise 29, Terms 5", says = "(PARTED if that is 0; that is all that voice() answers then)")
+  @Asks(of = "Promise 29, Terms 5", says = "(PARTED if that is 0; that is all that voice() answers then)")
   static void traceOfAPartedOne() {
     int[][] bodies = {{13}, {21, 13}, {21, 13}, {21, 13}, {21, 13}, {13}, {71, 21, 13}};
     for (int kind = 0; kind < 7; kind++) {
@@ -207,22 +190,9 @@ public final class EdgesOfSheetsTest {
     }
   }
 
-  @Sentences.Asks(of = "Promise 29, Terms 0", says = "one that answers an ERROR changes nothing but what told() tells, or where told.")
-  static void partedChangesTheTraceAlone() {
-    Sentences.Made spoken = () -> {
-      LoudMarket x = Sentences.busy();
-      x.set(4, 0, 0);
-      x.set(4, 1, 5);
-      x.voice(4, 3, 0);
-      x.set(4, 1, 4);
-      return x;
-    };
-    Sentences.refused(spoken, "voice(4, 3, 9)", x -> x.voice(4, 3, 9), PARTED);
-  }
-
   // ---- promise 30
 
-  @Sentences.Asks(of = "Promise 30",
+  @Asks(of = "Promise 30",
       says = "A SHEET has n numbers, all 0, of so many bits (8, 16, 32; 0: it is missing, n doesn't matter): 1. BEYOND.")
   static void sheetBeyond() {
     refused("sheet(-1, 8, 4)", x -> x.sheet(-1, 8, 4), BEYOND);
@@ -239,7 +209,7 @@ public final class EdgesOfSheetsTest {
     }
   }
 
-  @Sentences.Asks(of = "Promise 30", says = "STATE: n is below 0 (ahead of BEYOND of n).")
+  @Asks(of = "Promise 30", says = "STATE: n is below 0 (ahead of BEYOND of n).")
   static void sheetBelowNothing() {
     refused("sheet(0, 8, -1)", x -> x.sheet(0, 8, -1), STATE);
     refused("sheet(0, 16, MIN)", x -> x.sheet(0, 16, MIN), STATE);
@@ -248,7 +218,7 @@ public final class EdgesOfSheetsTest {
     refused("BEYOND of bits ahead of STATE", x -> x.sheet(0, 9, -1), BEYOND);
   }
 
-  @Sentences.Asks(of = "Promise 30, Terms 6",
+  @Asks(of = "Promise 30, Terms 6",
       says = "SHEETS 0 .. 3 are rows of 8, 16, 32 bits, at most 24 numbers, or missing (as at first).")
   static void sheetsOfAtMost() {
     refused("sheet(0, 8, 25)", x -> x.sheet(0, 8, 25), BEYOND);
@@ -267,7 +237,7 @@ public final class EdgesOfSheetsTest {
     }
   }
 
-  @Sentences.Asks(of = "Promise 30", says = "A SHEET has n numbers, all 0,")
+  @Asks(of = "Promise 30", says = "A SHEET has n numbers, all 0,")
   static void sheetOfNoughts() {
     LoudMarket x = withPlaces(3);
     lay(x, 0, 8, 7, 8, 9);
@@ -283,7 +253,7 @@ public final class EdgesOfSheetsTest {
     voicesAre("are 0 behind a shorter one", x, 0, 0, 0);
   }
 
-  @Sentences.Asks(of = "Promise 30", says = "0: it is missing, n doesn't matter")
+  @Asks(of = "Promise 30", says = "0: it is missing, n doesn't matter")
   static void sheetMissing() {
     for (int n : new int[] {0, 1, 24, 25, -1, MIN, MAX}) {
       LoudMarket x = withPlaces(1);
@@ -299,7 +269,7 @@ public final class EdgesOfSheetsTest {
 
   // ---- promise 31
 
-  @Sentences.Asks(of = "Promise 31", says = "BEYOND: no such SHEET. NONE: it is missing. BEYOND: no such number.")
+  @Asks(of = "Promise 31", says = "BEYOND: no such SHEET. NONE: it is missing. BEYOND: no such number.")
   static void putErrors() {
     refused("put(-1, 0, 9)", x -> x.put(-1, 0, 9), BEYOND);
     refused("put(4, 0, 9)", x -> x.put(4, 0, 9), BEYOND);
@@ -312,12 +282,12 @@ public final class EdgesOfSheetsTest {
     refused("put(0, 23, 9)", x -> x.put(0, 23, 9), BEYOND);
     refused("put(0, MIN, 9)", x -> x.put(0, MIN, 9), BEYOND);
     refused("put(0, MAX, 9)", x -> x.put(0, MAX, 9), BEYOND);
-    LoudMarket x = Sentences.busy();
+    LoudMarket x = busy();
     due("the first", x.put(0, 0, 9), 1);
     due("the last", x.put(0, 7, 9), 1);
   }
 
-  @Sentences.Asks(of = "Promise 31", says = "Number i of a SHEET becomes v (its lowest bits): 1.")
+  @Asks(of = "Promise 31", says = "Number i of a SHEET becomes v (its lowest bits): 1.")
   static void putLowestBits() {
     int[] bits = {8, 16, 32};
     int[][] sevens = {{7, 256 + 7, 7 - 256, MIN + 7, 0x7FFFFF07}, {7, 65536 + 7, 7 - 65536, MIN + 7, 0x7FFF0007}, {7}};
@@ -340,7 +310,7 @@ public final class EdgesOfSheetsTest {
 
   // ---- promise 32
 
-  @Sentences.Asks(of = "Promise 32", says = "BEYOND: no such SHEET. NONE: one is missing. KIND: they are of unlike bits.")
+  @Asks(of = "Promise 32", says = "BEYOND: no such SHEET. NONE: one is missing. KIND: they are of unlike bits.")
   static void moveErrors() {
     refused("move(-1, 0, 1, 0, 1)", x -> x.move(-1, 0, 1, 0, 1), BEYOND);
     refused("move(4, 0, 1, 0, 1)", x -> x.move(4, 0, 1, 0, 1), BEYOND);
@@ -358,7 +328,7 @@ public final class EdgesOfSheetsTest {
     refused("KIND ahead of BEYOND", x -> x.move(0, -1, 2, 9, 99), KIND);
   }
 
-  @Sentences.Asks(of = "Promise 32", says = "BEYOND: n, i, or j is below 0, or they don't stand there.")
+  @Asks(of = "Promise 32", says = "BEYOND: n, i, or j is below 0, or they don't stand there.")
   static void moveBeyond() {
     refused("n below 0", x -> x.move(0, 0, 1, 0, -1), BEYOND);
     refused("i below 0", x -> x.move(0, -1, 1, 0, 1), BEYOND);
@@ -374,18 +344,18 @@ public final class EdgesOfSheetsTest {
     refused("MAX numbers", x -> x.move(0, 1, 1, 1, MAX), BEYOND);
     refused("from MAX on", x -> x.move(0, MAX, 1, 0, 1), BEYOND);
     refused("to MAX", x -> x.move(0, 0, 1, MAX, MAX), BEYOND);
-    due("all 8", Sentences.busy().move(0, 0, 1, 0, 8), 8);
-    due("the last to the last", Sentences.busy().move(0, 7, 1, 7, 1), 1);
-    Sentences.unchanged(Sentences::busy, "none", x -> x.move(0, 0, 1, 0, 0), 0);
-    Sentences.unchanged(Sentences::busy, "none behind the last", x -> x.move(0, 8, 1, 8, 0), 0);
-    LoudMarket x = Sentences.busy();
+    due("all 8", busy().move(0, 0, 1, 0, 8), 8);
+    due("the last to the last", busy().move(0, 7, 1, 7, 1), 1);
+    unchanged(Sentences::busy, "none", x -> x.move(0, 0, 1, 0, 0), 0);
+    unchanged(Sentences::busy, "none behind the last", x -> x.move(0, 8, 1, 8, 0), 0);
+    LoudMarket x = busy();
     x.sheet(3, 8, 4);
     due("8 to a row of 4", x.move(0, 0, 3, 0, 8), BEYOND);
     due("8 from a row of 4", x.move(3, 0, 0, 0, 8), BEYOND);
     due("4 to a row of 4", x.move(0, 4, 3, 0, 4), 4);
   }
 
-  @Sentences.Asks(of = "Promise 32",
+  @Asks(of = "Promise 32",
       says = "n numbers of a SHEET, from number i on, come to another one (or the same), from its number j on, as they all were: n.")
   static void moveOverItself() {
     LoudMarket x = withPlaces(5);
@@ -411,17 +381,17 @@ public final class EdgesOfSheetsTest {
 
   // ---- promise 33
 
-  @Sentences.Asks(of = "Promise 33", says = "or till PLACES end. BEYOND. NONE.")
+  @Asks(of = "Promise 33", says = "or till PLACES end. BEYOND. NONE.")
   static void voicesErrors() {
     refused("voices(-1)", x -> x.voices(-1), BEYOND);
     refused("voices(4)", x -> x.voices(4), BEYOND);
     refused("voices(MIN)", x -> x.voices(MIN), BEYOND);
     refused("voices(MAX)", x -> x.voices(MAX), BEYOND);
     refused("voices(3)", x -> x.voices(3), NONE);
-    Sentences.refused(Sentences::empty, "voices(0), no PLACES", x -> x.voices(0), NONE);
+    refused(Sentences::empty, "voices(0), no PLACES", x -> x.voices(0), NONE);
   }
 
-  @Sentences.Asks(of = "Promise 33",
+  @Asks(of = "Promise 33",
       says = "Numbers of a SHEET are VOICES of PLACES 0, 1, ..: how many were told so, up to the first that is none, or till PLACES end.")
   static void voicesUpToTheFirstThatIsNone() {
     LoudMarket x = withPlaces(3);
@@ -436,7 +406,7 @@ public final class EdgesOfSheetsTest {
     voicesAre("none", x, 7, 99, 0);
   }
 
-  @Sentences.Asks(of = "Promise 33", says = "or till PLACES end.")
+  @Asks(of = "Promise 33", says = "or till PLACES end.")
   static void voicesTillPlacesEnd() {
     LoudMarket x = withPlaces(2);
     lay(x, 0, 8, 1, 2, 3, 4);
@@ -460,20 +430,20 @@ public final class EdgesOfSheetsTest {
 
   // ---- promise 34
 
-  @Sentences.Asks(of = "Promise 34", says = "as many as there are numbers: all are. BEYOND. NONE.")
+  @Asks(of = "Promise 34", says = "as many as there are numbers: all are. BEYOND. NONE.")
   static void judgeErrors() {
     refused("judge(-1)", x -> x.judge(-1), BEYOND);
     refused("judge(4)", x -> x.judge(4), BEYOND);
     refused("judge(MIN)", x -> x.judge(MIN), BEYOND);
     refused("judge(MAX)", x -> x.judge(MAX), BEYOND);
     refused("judge(3)", x -> x.judge(3), NONE);
-    Sentences.unchanged(Sentences::busy, "judge(0)", x -> x.judge(0), 0);
+    unchanged(Sentences::busy, "judge(0)", x -> x.judge(0), 0);
   }
 
-  @Sentences.Asks(of = "Promise 34",
+  @Asks(of = "Promise 34",
       says = "A PLAN is JUDGED: the place (from 0) of the first that isn't so; as many as there are numbers: all are.")
   static void judgedAll() {
-    LoudMarket x = Sentences.with(110, 47, 60);
+    LoudMarket x = with(110, 47, 60);
     x.sheet(0, 8, 0);
     due("no numbers", x.judge(0), 0);
     lay(x, 0, 8, 45);
@@ -501,7 +471,7 @@ public final class EdgesOfSheetsTest {
 
   // ---- promises 35 and 36
 
-  @Sentences.Asks(of = "Promise 35",
+  @Asks(of = "Promise 35",
       says = "All (but SHEETS, THE TRACE, what told() tells, and how often this was done) is kept as an IMAGE, in place of one ahead: how often that was done.")
   static void imageInPlaceOfOneAhead() {
     LoudMarket x = new LoudMarket();
@@ -517,7 +487,7 @@ public final class EdgesOfSheetsTest {
     }
   }
 
-  @Sentences.Asks(of = "Promise 35", says = "All (but SHEETS, THE TRACE, what told() tells, and how often this was done)")
+  @Asks(of = "Promise 35", says = "All (but SHEETS, THE TRACE, what told() tells, and how often this was done)")
   static void imageOfAllBut() {
     LoudMarket x = withPlaces(2);
     lay(x, 0, 8, 3, 4);
@@ -540,7 +510,7 @@ public final class EdgesOfSheetsTest {
     due("a SHEET that wasn't there", x.judge(1), 0);
   }
 
-  @Sentences.Asks(of = "Promise 35", says = "is kept as an IMAGE")
+  @Asks(of = "Promise 35", says = "is kept as an IMAGE")
   static void imageOfFullAndEmpty() {
     LoudMarket x = new LoudMarket();
     x.image();
@@ -550,9 +520,9 @@ public final class EdgesOfSheetsTest {
     for (int i = 0; i < 24; i++) {
       x.tell(i);
     }
-    Sentences.text(x, 0, "7");
-    Sentences.text(x, 1, "5");
-    Sentences.feed(x, "1+".repeat(30));
+    text(x, 0, "7");
+    text(x, 1, "5");
+    feed(x, "1+".repeat(30));
     x.image();
     due("all there", x.restore(), 0);
     due("8 PLACES", x.place(0, 0, 0), FULL);
@@ -563,22 +533,47 @@ public final class EdgesOfSheetsTest {
     x.untell(1);
     x.text(0);
     x.check();
+    x.seed(0);
+    feed(x, "7+".repeat(30));
     x.restore();
     due("60 bytes", x.count(4), 60);
     due("24 numbers", x.count(5), 24);
     due("CALL", x.untell(0), 1);
     due("COST", x.untell(1), 1);
+    due("z", x.count(7), 1);
+    due("v - h", x.placeIs(0, 8), 9);
+    x.image();
+    due("no TEXTS now", x.restore(), 0);
+    due("no CALL", x.untell(0), 0);
+    due("no COST", x.untell(1), 0);
+    due("what waits isn't so", x.check(), 1);
+    imageOfTapeAndWhatWaits();
   }
 
-  @Sentences.Asks(of = "Promise 36", says = "All is as the IMAGE has it, which stays: WEEKS. NONE: there is none.")
+  private static void imageOfTapeAndWhatWaits() {
+    LoudMarket x = with(500, 47, 60);
+    feed(x, "7+");
+    x.tell(60);
+    x.image();
+    text(x, 0, "1");
+    feed(x, "9-9");
+    x.check();
+    x.tell(59);
+    x.restore();
+    due("what waits", x.check(), 0);
+    due("THE TAPE goes on", text(x, 0, "2"), 1);
+    due("as it was", x.placeIs(0, 8), 9);
+  }
+
+  @Asks(of = "Promise 36", says = "All is as the IMAGE has it, which stays: WEEKS. NONE: there is none.")
   static void restoreNone() {
-    Sentences.refused(Sentences::empty, "restore()", x -> x.restore(), NONE);
-    Sentences.refused(() -> withPlaces(8), "restore() of 8 PLACES", x -> x.restore(), NONE);
+    refused(Sentences::empty, "restore()", x -> x.restore(), NONE);
+    refused(() -> withPlaces(8), "restore() of 8 PLACES", x -> x.restore(), NONE);
   }
 
-  @Sentences.Asks(of = "Promise 36", says = "All is as the IMAGE has it, which stays: WEEKS.")
+  @Asks(of = "Promise 36", says = "All is as the IMAGE has it, which stays: WEEKS.")
   static void theImageStays() {
-    LoudMarket x = Sentences.with(110, 47, 60);
+    LoudMarket x = with(110, 47, 60);
     x.weeks(2);
     x.image();
     for (int i = 0; i < 3; i++) {
@@ -598,7 +593,7 @@ public final class EdgesOfSheetsTest {
 
   // ---- promises 37 and 38
 
-  @Sentences.Asks(of = "Promise 37", says = "One more number waits: how many. FULL: 24 wait.")
+  @Asks(of = "Promise 37", says = "One more number waits: how many. FULL: 24 wait.")
   static void tellFull() {
     LoudMarket x = new LoudMarket();
     int[] any = {0, -1, MIN, MAX, BEYOND};
@@ -607,19 +602,19 @@ public final class EdgesOfSheetsTest {
     }
     due("a 25th", x.tell(0), FULL);
     due("24 still", x.count(5), 24);
-    Sentences.Made full = () -> {
-      LoudMarket y = Sentences.busy();
-      while (y.count(5) < 24) {
+    Made full = () -> {
+      LoudMarket y = busy();
+      for (int i = y.count(5); i < 24; i++) {
         y.tell(7);
       }
       return y;
     };
-    Sentences.refused(full, "tell(7)", y -> y.tell(7), FULL);
+    refused(full, "tell(7)", y -> y.tell(7), FULL);
     x.check();
     due("room again", x.tell(0), 1);
   }
 
-  @Sentences.Asks(of = "Promise 38",
+  @Asks(of = "Promise 38",
       says = "The numbers that wait (none do then) are SHOUTS of PLACES 0, 1, .. as they are: 0;")
   static void checkAllSo() {
     LoudMarket x = new LoudMarket();
@@ -648,7 +643,7 @@ public final class EdgesOfSheetsTest {
     due("as they are now", x.check(), 0);
   }
 
-  @Sentences.Asks(of = "Promise 38", says = "else 1 and the place of the first that isn't so (one that lacks, or is too many, too).")
+  @Asks(of = "Promise 38", says = "else 1 and the place of the first that isn't so (one that lacks, or is too many, too).")
   static void checkNotSo() {
     LoudMarket x = new LoudMarket();
     x.tell(0);
@@ -684,7 +679,7 @@ public final class EdgesOfSheetsTest {
 
   // ---- promise 39
 
-  @Sentences.Asks(of = "Promise 39", says = "7 z (any number), 8 all PURSES together. BEYOND.")
+  @Asks(of = "Promise 39", says = "7 z (any number), 8 all PURSES together. BEYOND.")
   static void countBeyond() {
     refused("count(-1)", x -> x.count(-1), BEYOND);
     refused("count(9)", x -> x.count(9), BEYOND);
@@ -692,21 +687,21 @@ public final class EdgesOfSheetsTest {
     refused("count(MAX)", x -> x.count(MAX), BEYOND);
     int[] counts = {7, 47, 5, 2, 5, 7, 12, 77};
     for (int what = 0; what < counts.length; what++) {
-      due("count(" + what + ")", Sentences.busy().count(what), counts[what]);
+      due("count(" + what + ")", busy().count(what), counts[what]);
     }
   }
 
-  @Sentences.Asks(of = "Promise 39", says = "7 z (any number)")
+  @Asks(of = "Promise 39", says = "7 z (any number)")
   static void zThatLooksLikeAnError() {
     LoudMarket x = new LoudMarket();
     for (int k = 1; k <= 6; k++) {
-      x.seed(Sentences.LOW - k);
-      due("z", x.count(7), Sentences.LOW - k);
+      x.seed(LOW - k);
+      due("z", x.count(7), LOW - k);
       due("no ERROR " + k, x.told(k), 0);
     }
   }
 
-  @Sentences.Asks(of = "Promise 39", says = "8 all PURSES together.")
+  @Asks(of = "Promise 39", says = "8 all PURSES together.")
   static void pursesTogether() {
     due("no PLACES", new LoudMarket().count(8), 0);
     LoudMarket x = new LoudMarket();
@@ -714,7 +709,7 @@ public final class EdgesOfSheetsTest {
       x.place(500, 44, 9);
       x.set(i, 5, i);
     }
-    Sentences.text(x, 1, "999");
+    text(x, 1, "999");
     x.rule(1, 99);
     x.weeks(1);
     due("8 of them", x.count(8), -999 * 8 + 28);
@@ -728,7 +723,7 @@ public final class EdgesOfSheetsTest {
     due("no ERROR", x.told(1) + x.told(2) + x.told(3) + x.told(4) + x.told(5) + x.told(6), 0);
   }
 
-  @Sentences.Asks(of = "Promise 39", says = "3 how many CELLS are RIVER, 4 bytes of THE TAPE, 5 numbers that wait, 6 BODIES in THE TRACE")
+  @Asks(of = "Promise 39", says = "3 how many CELLS are RIVER, 4 bytes of THE TAPE, 5 numbers that wait, 6 BODIES in THE TRACE")
   static void countsOfEmptyAndFull() {
     LoudMarket x = new LoudMarket();
     for (int what = 3; what < 7; what++) {
@@ -749,7 +744,7 @@ public final class EdgesOfSheetsTest {
 
   // ---- promise 40
 
-  @Sentences.Asks(of = "Promise 40", says = "BEYOND: another k (counted, too).")
+  @Asks(of = "Promise 40", says = "BEYOND: another k (counted, too).")
   static void toldBeyond() {
     refused("told(0)", x -> x.told(0), BEYOND);
     refused("told(7)", x -> x.told(7), BEYOND);
@@ -763,10 +758,10 @@ public final class EdgesOfSheetsTest {
     due("counted, too", x.told(1), 2);
   }
 
-  @Sentences.Asks(of = "Promise 40", says = "How many acts have answered an ERROR LOW - k (k 1 .. 6);")
+  @Asks(of = "Promise 40", says = "How many acts have answered an ERROR LOW - k (k 1 .. 6);")
   static void toldEach() {
     LoudMarket x = withPlaces(8);
-    Sentences.Act[] acts = {
+    Act[] acts = {
       y -> y.far(80, 0), y -> y.whose(), y -> y.ground(44, 1), y -> y.place(0, 0, 0),
       y -> y.as(0, 1), y -> {
         y.set(0, 1, 0);
@@ -775,25 +770,12 @@ public final class EdgesOfSheetsTest {
     for (int k = 1; k <= 6; k++) {
       due("none yet", x.told(k), 0);
       for (int i = 1; i <= k; i++) {
-        due("ERROR " + k, acts[k - 1].on(x), Sentences.LOW - k);
+        due("ERROR " + k, acts[k - 1].on(x), LOW - k);
         due("told(" + k + ")", x.told(k), i);
       }
     }
     for (int k = 1; k <= 6; k++) {
       due("each by itself", x.told(k), k);
     }
-  }
-
-  @Sentences.Asks(of = "Promise 40, Terms 0",
-      says = "ERRORS are answers below -1000000: LOW is -1000000; LOW - 1 BEYOND, LOW - 2 NONE, LOW - 3 STATE, LOW - 4 FULL, LOW - 5 KIND, LOW - 6 PARTED.")
-  static void errorsByTheirNumbers() {
-    LoudMarket x = withPlaces(8);
-    due("BEYOND", x.far(80, 0), -1000001);
-    due("NONE", x.whose(), -1000002);
-    due("STATE", x.ground(44, 1), -1000003);
-    due("FULL", x.place(0, 0, 0), -1000004);
-    due("KIND", x.as(0, 1), -1000005);
-    x.set(0, 1, 0);
-    due("PARTED", x.voice(0, 3, 1), -1000006);
   }
 }

@@ -1,33 +1,16 @@
 // Promises 11 to 17: each sentence that names an edge of texts, of weeks and of
 // how the market and houses go has a test of its own.
-public final class EdgesOfWeeksTest {
-  private static final int BEYOND = Sentences.BEYOND;
-  private static final int STATE = Sentences.STATE;
-  private static final int FULL = Sentences.FULL;
-  private static final int MIN = Sentences.MIN;
-  private static final int MAX = Sentences.MAX;
+public final class EdgesOfWeeksTest extends Sentences {
   // As little as an int can be, as a part of a TEXT.
   private static final String LEAST = "8*4096*16*4096";
 
   public static void main(String[] args) throws Exception {
-    Sentences.run(EdgesOfWeeksTest.class);
-  }
-
-  private static void due(String call, long got, long want) {
-    Sentences.due(call, got, want);
-  }
-
-  private static void refused(String call, Sentences.Act act, int want) {
-    Sentences.refused(call, act, want);
-  }
-
-  private static int text(LoudMarket x, int use, String text) {
-    return Sentences.text(x, use, text);
+    run(EdgesOfWeeksTest.class);
   }
 
   /** What a TOLD place shouts by a TEXT: f 3, v 60, h 8, g 20, w 0. */
   private static void value(String text, int want) {
-    LoudMarket x = Sentences.with(500, 47, 60);
+    LoudMarket x = with(500, 47, 60);
     x.set(0, 4, 8);
     due("text " + text, text(x, 0, text), 1);
     due(text, x.placeIs(0, 8), want);
@@ -58,9 +41,9 @@ public final class EdgesOfWeeksTest {
 
   // ---- promise 11
 
-  @Sentences.Asks(of = "Promise 11", says = "The n lowest bytes (1 .. 8) of a word, the lowest first, come to THE TAPE: how many there are.")
+  @Asks(of = "Promise 11", says = "The n lowest bytes (1 .. 8) of a word, the lowest first, come to THE TAPE: how many there are.")
   static void bytesOfAWord() {
-    LoudMarket x = Sentences.with(500, 47, 60);
+    LoudMarket x = with(500, 47, 60);
     due("1 of 8", x.feed(word("6+123456"), 1), 1);
     due("the lowest", x.text(0), 1);
     due("6", x.placeIs(0, 8), 6);
@@ -76,7 +59,7 @@ public final class EdgesOfWeeksTest {
     due("their TEXT", x.text(0), -10);
   }
 
-  @Sentences.Asks(of = "Promise 11", says = "how many there are. BEYOND. FULL.")
+  @Asks(of = "Promise 11", says = "how many there are. BEYOND. FULL.")
   static void feedBeyond() {
     refused("feed(49, 0)", x -> x.feed(49, 0), BEYOND);
     refused("feed(49, 9)", x -> x.feed(49, 9), BEYOND);
@@ -86,21 +69,21 @@ public final class EdgesOfWeeksTest {
   }
 
   private static LoudMarket taped(String text) {
-    LoudMarket x = Sentences.busy();
+    LoudMarket x = busy();
     x.text(1);
-    Sentences.feed(x, text);
+    feed(x, text);
     return x;
   }
 
-  @Sentences.Asks(of = "Promise 11, Terms 2", says = "THE TAPE (bytes, at most 60)")
+  @Asks(of = "Promise 11, Terms 2", says = "THE TAPE (bytes, at most 60)")
   static void feedFull() {
     String sum = "v" + times("+1", 29);
     due("60 bytes", taped(sum + "2").count(4), 60);
     due("the last 8", taped(sum.substring(0, 52)).feed(0, 8), 60);
-    Sentences.refused(() -> taped(sum + "2"), "a 61st", x -> x.feed('1', 1), FULL);
-    Sentences.refused(() -> taped(sum), "2 of which 1 has room", x -> x.feed('1', 2), FULL);
-    Sentences.refused(() -> taped(sum.substring(0, 53)), "8 of which 7 have room", x -> x.feed('1', 8), FULL);
-    Sentences.refused(() -> taped(sum + "2"), "BEYOND ahead of FULL", x -> x.feed('1', 9), BEYOND);
+    refused(() -> taped(sum + "2"), "a 61st", x -> x.feed('1', 1), FULL);
+    refused(() -> taped(sum), "2 of which 1 has room", x -> x.feed('1', 2), FULL);
+    refused(() -> taped(sum.substring(0, 53)), "8 of which 7 have room", x -> x.feed('1', 8), FULL);
+    refused(() -> taped(sum + "2"), "BEYOND ahead of FULL", x -> x.feed('1', 9), BEYOND);
     LoudMarket x = taped(sum + "2");
     x.set(4, 3, 8);
     due("a TEXT of 60", x.text(0), 1);
@@ -110,9 +93,9 @@ public final class EdgesOfWeeksTest {
 
   // ---- promise 12
 
-  @Sentences.Asks(of = "Promise 12", says = "THE TAPE, which is empty then, is the TEXT of a USE (0, 1), in place of one ahead: 1.")
+  @Asks(of = "Promise 12", says = "THE TAPE, which is empty then, is the TEXT of a USE (0, 1), in place of one ahead: 1.")
   static void textInPlaceOfAnother() {
-    LoudMarket x = Sentences.with(500, 47, 60);
+    LoudMarket x = with(500, 47, 60);
     due("CALL", text(x, 0, "7"), 1);
     due("THE TAPE", x.count(4), 0);
     due("CALL", x.placeIs(0, 8), 7);
@@ -123,7 +106,7 @@ public final class EdgesOfWeeksTest {
     due("COST is not CALL", x.thenPlace(1, 0, 6), 16 - 5);
   }
 
-  @Sentences.Asks(of = "Promise 12", says = "BEYOND (THE TAPE stays).")
+  @Asks(of = "Promise 12", says = "BEYOND (THE TAPE stays).")
   static void textBeyond() {
     refused("text(-1)", x -> x.text(-1), BEYOND);
     refused("text(2)", x -> x.text(2), BEYOND);
@@ -131,14 +114,14 @@ public final class EdgesOfWeeksTest {
     refused("text(MAX)", x -> x.text(MAX), BEYOND);
     LoudMarket x = new LoudMarket();
     due("with an empty TAPE", x.text(2), BEYOND);
-    Sentences.feed(x, "7");
+    feed(x, "7");
     x.text(2);
     due("THE TAPE stays", x.count(4), 1);
   }
 
-  @Sentences.Asks(of = "Promise 12", says = "-10 less the FAULT (no ERROR; the one ahead stays; THE TAPE is empty, too).")
+  @Asks(of = "Promise 12", says = "-10 less the FAULT (no ERROR; the one ahead stays; THE TAPE is empty, too).")
   static void textWithAFault() {
-    LoudMarket x = Sentences.with(500, 47, 60);
+    LoudMarket x = with(500, 47, 60);
     text(x, 0, "7");
     text(x, 1, "5");
     due("CALL", text(x, 0, "8+"), -12);
@@ -153,7 +136,7 @@ public final class EdgesOfWeeksTest {
     }
   }
 
-  @Sentences.Asks(of = "Promise 12, Terms 2", says = "how many there are, if it ends too early.")
+  @Asks(of = "Promise 12, Terms 2", says = "how many there are, if it ends too early.")
   static void textEndsTooEarly() {
     fault("", 0);
     fault("1+", 2);
@@ -167,7 +150,7 @@ public final class EdgesOfWeeksTest {
     fault("(" + times("1", 4) + times("+1", 27) + "1", 60);
   }
 
-  @Sentences.Asks(of = "Promise 12, Terms 2", says = "FAULT: the place of the first byte with which no TEXT goes on;")
+  @Asks(of = "Promise 12, Terms 2", says = "FAULT: the place of the first byte with which no TEXT goes on;")
   static void faultOfTheFirstByte() {
     fault("+1", 0);
     fault(")", 0);
@@ -190,7 +173,7 @@ public final class EdgesOfWeeksTest {
     fault("G", 0);
   }
 
-  @Sentences.Asks(of = "Promise 12, Terms 2", says = "B: S, or S < S, S = S, S > S.")
+  @Asks(of = "Promise 12, Terms 2", says = "B: S, or S < S, S = S, S > S.")
   static void oneComparison() {
     value("1<2", 1);
     value("(1<2)<3", 1);
@@ -204,7 +187,7 @@ public final class EdgesOfWeeksTest {
     fault("1<2&1<2<3", 7);
   }
 
-  @Sentences.Asks(of = "Promise 12, Terms 2", says = "Q: a NUMBER of 1 to 4 digits, a NAME, ! Q, ( T ).")
+  @Asks(of = "Promise 12, Terms 2", says = "Q: a NUMBER of 1 to 4 digits, a NAME, ! Q, ( T ).")
   static void numbersOfFourDigits() {
     value("7", 7);
     value("0", 0);
@@ -218,7 +201,7 @@ public final class EdgesOfWeeksTest {
     fault("!12345", 5);
   }
 
-  @Sentences.Asks(of = "Promise 12, Terms 2", says = "No blanks.")
+  @Asks(of = "Promise 12, Terms 2", says = "No blanks.")
   static void noBlanks() {
     fault(" 1", 0);
     fault("1 ", 1);
@@ -228,7 +211,7 @@ public final class EdgesOfWeeksTest {
     fault("( 1)", 1);
   }
 
-  @Sentences.Asks(of = "Promise 12, Terms 2", says = "At most 5 of ! and ( are open at once.")
+  @Asks(of = "Promise 12, Terms 2", says = "At most 5 of ! and ( are open at once.")
   static void fiveOpen() {
     value("(((((7)))))", 7);
     value("!!!!!7", 0);
@@ -246,7 +229,7 @@ public final class EdgesOfWeeksTest {
     fault("((((1+!!7))))", 7);
   }
 
-  @Sentences.Asks(of = "Promise 12, Terms 2", says = "Ints that wrap;")
+  @Asks(of = "Promise 12, Terms 2", says = "Ints that wrap;")
   static void textsWrap() {
     value(LEAST + "<0", 1);
     value(LEAST + "-1>0", 1);
@@ -256,7 +239,7 @@ public final class EdgesOfWeeksTest {
     value("9999*9999*43=4172*1000+747", 1);
   }
 
-  @Sentences.Asks(of = "Promise 12, Terms 2", says = "/ cut, % the rest that it leaves, both by 0 are 0;")
+  @Asks(of = "Promise 12, Terms 2", says = "/ cut, % the rest that it leaves, both by 0 are 0;")
   static void quotientsOfTexts() {
     value("7/0", 0);
     value("7%0", 0);
@@ -274,27 +257,19 @@ public final class EdgesOfWeeksTest {
     value("(" + LEAST + ")%(0-1)+3", 3);
   }
 
-  @Sentences.Asks(of = "Promise 12, Terms 2", says = "| & < = > ! are 1 or 0, what is not 0 being true;")
+  @Asks(of = "Promise 12, Terms 2", says = "| & < = > ! are 1 or 0, what is not 0 being true;")
   static void truth() {
-    value("2|4", 1);
-    value("0|(0-4)", 1);
-    value("0|0", 0);
-    value("2&4", 1);
-    value("2&0", 0);
-    value("0&2", 0);
-    value("1<2", 1);
-    value("2<2", 0);
-    value("2=2", 1);
-    value("2=3", 0);
-    value("3>2", 1);
-    value("2>2", 0);
-    value("!0", 1);
-    value("!7", 0);
-    value("!(0-7)", 0);
-    value("!!7", 1);
+    String[] areOne = {"2|4", "0|(0-4)", "7|0", "2&4", "1<2", "2=2", "3>2", "!0", "!!7", "!!(0-7)"};
+    for (String text : areOne) {
+      value("(" + text + ")+5", 6);
+    }
+    String[] areNought = {"0|0", "2&0", "0&2", "0&0", "2<2", "3<2", "2=3", "2=1", "2>2", "2>3", "!7", "!(0-7)", "!1"};
+    for (String text : areNought) {
+      value("(" + text + ")+5", 5);
+    }
   }
 
-  @Sentences.Asks(of = "Promise 12, Terms 2",
+  @Asks(of = "Promise 12, Terms 2",
       says = "0 CALL of TOLD: NAMES f FAR of THE MARKET, v VOICE, h HOARSE, g GOOD, w WEEKS; without a TEXT v - h.")
   static void namesOfCall() {
     value("f", 3);
@@ -305,13 +280,13 @@ public final class EdgesOfWeeksTest {
     fault(0, "s", 0);
     fault(0, "F", 0);
     fault(0, "x", 0);
-    due("w is WEEKS so far", Sentences.with(0, 0, 0).count(2), 0);
-    LoudMarket x = Sentences.with(500, 44, 0);
+    due("w is WEEKS so far", with(0, 0, 0).count(2), 0);
+    LoudMarket x = with(500, 44, 0);
     text(x, 0, "w");
     due("w in WEEK 60", x.thenPlace(60, 0, 8), 60);
   }
 
-  @Sentences.Asks(of = "Promise 12, Terms 2", says = "1 COST of a SHOUT: s how loud, h HOARSE, g GOOD;")
+  @Asks(of = "Promise 12, Terms 2", says = "1 COST of a SHOUT: s how loud, h HOARSE, g GOOD;")
   static void namesOfCost() {
     due("s, h, g", text(new LoudMarket(), 1, "s+h+g"), 1);
     fault(1, "f", 0);
@@ -320,13 +295,13 @@ public final class EdgesOfWeeksTest {
   }
 
   private static int cost(String text, int voice) {
-    LoudMarket x = Sentences.with(500, 44, voice);
+    LoudMarket x = with(500, 44, voice);
     x.set(0, 5, 0);
     due("text " + text, text(x, 1, text), 1);
     return -x.thenPlace(1, 0, 6);
   }
 
-  @Sentences.Asks(of = "Promise 12, Terms 2", says = "held within 0 .. 999; without s / 3.")
+  @Asks(of = "Promise 12, Terms 2", says = "held within 0 .. 999; without s / 3.")
   static void costHeld() {
     due("below", cost("0-5", 9), 0);
     due("at the lower end", cost("0", 9), 0);
@@ -336,24 +311,24 @@ public final class EdgesOfWeeksTest {
     due("as much as can be", cost(LEAST + "-1", 9), 999);
   }
 
-  @Sentences.Asks(of = "Promise 12, Terms 2", says = "without s / 3.")
+  @Asks(of = "Promise 12, Terms 2", says = "without s / 3.")
   static void costWithoutAText() {
     int[] costs = {0, 0, 0, 1, 1, 1, 2};
     for (int voice = 0; voice < costs.length; voice++) {
-      LoudMarket x = Sentences.with(500, 44, voice);
+      LoudMarket x = with(500, 44, voice);
       x.set(0, 5, 0);
       due("SHOUT " + voice, -x.thenPlace(1, 0, 6), costs[voice]);
     }
-    LoudMarket x = Sentences.with(500, 44, 99);
+    LoudMarket x = with(500, 44, 99);
     x.set(0, 5, 0);
     due("SHOUT 99", -x.thenPlace(1, 0, 6), 33);
   }
 
   // ---- promise 13
 
-  @Sentences.Asks(of = "Promise 13", says = "There is no TEXT of a USE any more: 1 if there was, else 0. BEYOND.")
+  @Asks(of = "Promise 13", says = "There is no TEXT of a USE any more: 1 if there was, else 0. BEYOND.")
   static void untellBeyond() {
-    LoudMarket x = Sentences.with(500, 47, 60);
+    LoudMarket x = with(500, 47, 60);
     due("none at first", x.untell(0), 0);
     due("none at first", x.untell(1), 0);
     text(x, 0, "7");
@@ -375,9 +350,9 @@ public final class EdgesOfWeeksTest {
 
   // ---- promise 14
 
-  @Sentences.Asks(of = "Promise 14", says = "n (1 .. 60) WEEKS go by: THE MARKET's CELL. BEYOND.")
+  @Asks(of = "Promise 14", says = "n (1 .. 60) WEEKS go by: THE MARKET's CELL. BEYOND.")
   static void weeksBeyond() {
-    LoudMarket x = Sentences.with(100, 49, 60);
+    LoudMarket x = with(100, 49, 60);
     due("1", x.weeks(1), 45);
     due("WEEKS", x.count(2), 1);
     due("60", x.weeks(60), 49);
@@ -390,23 +365,23 @@ public final class EdgesOfWeeksTest {
     due("without PLACES", new LoudMarket().weeks(60), 44);
   }
 
-  @Sentences.Asks(of = "Promise 14", says = "STATE: WEEKS would be above 9999.")
+  @Asks(of = "Promise 14", says = "STATE: WEEKS would be above 9999.")
   static void weeksAboveTheLast() {
-    Sentences.refused(Sentences::old, "weeks(10) in 9990", x -> x.weeks(10), STATE);
-    Sentences.refused(Sentences::old, "weeks(60) in 9990", x -> x.weeks(60), STATE);
-    Sentences.refused(Sentences::old, "BEYOND ahead of STATE", x -> x.weeks(61), BEYOND);
+    refused(Sentences::old, "weeks(10) in 9990", x -> x.weeks(10), STATE);
+    refused(Sentences::old, "weeks(60) in 9990", x -> x.weeks(60), STATE);
+    refused(Sentences::old, "BEYOND ahead of STATE", x -> x.weeks(61), BEYOND);
   }
 
-  @Sentences.Asks(of = "Promise 14, Terms 1", says = "WEEKS (so far) are 0 .. 9999.")
+  @Asks(of = "Promise 14, Terms 1", says = "WEEKS (so far) are 0 .. 9999.")
   static void weeksFromFirstToLast() {
     due("at first", new LoudMarket().count(2), 0);
-    LoudMarket x = Sentences.old();
+    LoudMarket x = old();
     due("9990", x.count(2), 9990);
     due("9 more", x.weeks(9), 47);
     due("9999", x.count(2), 9999);
     due("no more", x.weeks(1), STATE);
     due("9999 still", x.count(2), 9999);
-    x = Sentences.old();
+    x = old();
     for (int i = 1; i < 10; i++) {
       due("one by one", x.weeks(1), 47);
     }
@@ -415,9 +390,9 @@ public final class EdgesOfWeeksTest {
     due("again", x.weeks(60), 47);
   }
 
-  @Sentences.Asks(of = "Promise 14, Terms 1", says = "PURSE (held within -999999 .. 999999;")
+  @Asks(of = "Promise 14, Terms 1", says = "PURSE (held within -999999 .. 999999;")
   static void purseHeld() {
-    LoudMarket x = Sentences.with(500, 44, 9);
+    LoudMarket x = with(500, 44, 9);
     text(x, 1, "999");
     x.set(0, 5, 0);
     x.rule(1, 99);
@@ -435,14 +410,14 @@ public final class EdgesOfWeeksTest {
 
   // What the only PLACE makes of THE MARKET in 44.
   private static int gone(int to, int... rivers) {
-    LoudMarket x = Sentences.with(100, to, 50);
+    LoudMarket x = with(100, to, 50);
     for (int river : rivers) {
       due("RIVER in " + river, x.ground(river, 1), 0);
     }
     return x.weeks(1);
   }
 
-  @Sentences.Asks(of = "Promise 14, Terms 3",
+  @Asks(of = "Promise 14, Terms 3",
       says = "along that in which the difference is greater (along the row, the columns' difference, if both are alike);")
   static void goesAlongTheGreater() {
     due("columns' greater", gone(56), 45);
@@ -457,29 +432,29 @@ public final class EdgesOfWeeksTest {
     due("no rows' difference", gone(43), 43);
   }
 
-  @Sentences.Asks(of = "Promise 14, Terms 3", says = "if that CELL is RIVER, or there is no difference that way, along the other one;")
+  @Asks(of = "Promise 14, Terms 3", says = "if that CELL is RIVER, or there is no difference that way, along the other one;")
   static void goesTheOtherWay() {
     due("RIVER along the row", gone(66, 45), 54);
     due("RIVER along the row, columns' greater", gone(56, 45), 54);
     due("RIVER along the column, rows' greater", gone(65, 54), 45);
     due("RIVER on the far side", gone(66, 43, 34), 45);
     due("RIVER at the end", gone(46, 46), 45);
-    LoudMarket x = Sentences.with(100, 46, 99);
+    LoudMarket x = with(100, 46, 99);
     x.ground(46, 1);
     due("it never stands in a RIVER", x.weeks(9), 45);
   }
 
-  @Sentences.Asks(of = "Promise 14, Terms 3", says = "if that is RIVER too, or there is no difference, it stays.")
+  @Asks(of = "Promise 14, Terms 3", says = "if that is RIVER too, or there is no difference, it stays.")
   static void goesNoWay() {
     due("both RIVERS", gone(66, 45, 54), 44);
     due("RIVER, no other difference", gone(48, 45), 44);
     due("RIVER, no other difference, south", gone(74, 54), 44);
-    LoudMarket x = Sentences.with(500, 44, 9);
+    LoudMarket x = with(500, 44, 9);
     due("it is there", x.weeks(1), 44);
     due("and shouts", x.placeIs(0, 4), 1);
   }
 
-  @Sentences.Asks(of = "Promise 14, Terms 3",
+  @Asks(of = "Promise 14, Terms 3",
       says = "0 LOUDEST (0: it GOES FOR the PLACE with the greatest SHOUT, stays if two or more have it, or none shouts;")
   static void goesForTheLoudest() {
     LoudMarket x = new LoudMarket();
@@ -504,9 +479,9 @@ public final class EdgesOfWeeksTest {
     due("one shouts 1", x.then(1), 54);
   }
 
-  @Sentences.Asks(of = "Promise 14, Terms 3", says = "2 HILLS (0, or 1: from a HILL it goes in even WEEKS alone).")
+  @Asks(of = "Promise 14, Terms 3", says = "2 HILLS (0, or 1: from a HILL it goes in even WEEKS alone).")
   static void hills() {
-    LoudMarket x = Sentences.with(500, 49, 0);
+    LoudMarket x = with(500, 49, 0);
     text(x, 0, "50");
     x.ground(44, 2);
     x.ground(45, 2);
@@ -536,7 +511,7 @@ public final class EdgesOfWeeksTest {
     return x;
   }
 
-  @Sentences.Asks(of = "Promise 14, Terms 3",
+  @Asks(of = "Promise 14, Terms 3",
       says = "to the east less to the west (a PLACE pulls east by its SHOUT if its column is greater, west if it is less), south less north (rows likewise)")
   static void pullsTogether() {
     due("east less west", pulls(49, 30, 40, 29).weeks(1), 45);
@@ -549,9 +524,15 @@ public final class EdgesOfWeeksTest {
     LoudMarket x = pulls(49, 1);
     x.place(200, 44, 99);
     due("one in its CELL pulls nowhere", x.weeks(1), 45);
+    x = pulls(26, 9, 6, 3);
+    x.stand(27);
+    due("from column 7 of row 2: west", x.weeks(1), 26);
+    x = pulls(72, 9, 2, 7, 61, 1);
+    x.stand(62);
+    due("from column 2 of row 6: south", x.weeks(1), 72);
   }
 
-  @Sentences.Asks(of = "Promise 14, Terms 3",
+  @Asks(of = "Promise 14, Terms 3",
       says = "it goes one CELL along that which is greater without sign, the columns' if both are alike, its way;")
   static void pullsAlike() {
     due("both alike, east and south", pulls(66, 20).weeks(1), 45);
@@ -561,7 +542,7 @@ public final class EdgesOfWeeksTest {
     due("north greater without sign", pulls(49, 19, 4, 20).weeks(1), 34);
   }
 
-  @Sentences.Asks(of = "Promise 14, Terms 3", says = "not at all if both are 0, or that CELL is RIVER.")
+  @Asks(of = "Promise 14, Terms 3", says = "not at all if both are 0, or that CELL is RIVER.")
   static void pullsNotAtAll() {
     due("no PLACES", pulls().weeks(1), 44);
     due("none shouts", pulls(49, 0).weeks(1), 44);
@@ -574,24 +555,24 @@ public final class EdgesOfWeeksTest {
     due("RIVER in the south", x.weeks(1), 44);
   }
 
-  @Sentences.Asks(of = "Promise 14, Terms 3", says = "A WEEK: all SHOUTS by what is; THE MARKET goes (or not);")
+  @Asks(of = "Promise 14, Terms 3", says = "A WEEK: all SHOUTS by what is; THE MARKET goes (or not);")
   static void shoutsByWhatIs() {
-    LoudMarket x = Sentences.with(100, 45, 60);
+    LoudMarket x = with(100, 45, 60);
     x.place(200, 48, 10);
     due("it comes to the first", x.weeks(1), 45);
     due("which has shouted, as it was 1 FAR", x.placeIs(0, 4), 30 - 3);
     due("the second hasn't, as it was 4 FAR", x.placeIs(1, 4), 0);
   }
 
-  @Sentences.Asks(of = "Promise 14, Terms 3", says = "each that has shouted: HOARSE is half of its SHOUT more (99 at most)")
+  @Asks(of = "Promise 14, Terms 3", says = "each that has shouted: HOARSE is half of its SHOUT more (99 at most)")
   static void hoarseAtMost() {
     int[] halves = {0, 0, 1, 1, 2};
     for (int voice = 0; voice < halves.length; voice++) {
-      LoudMarket x = Sentences.with(500, 47, voice);
+      LoudMarket x = with(500, 47, voice);
       x.rule(1, 0);
       due("SHOUT " + voice, x.thenPlace(1, 0, 4), halves[voice]);
     }
-    LoudMarket x = Sentences.with(500, 47, 0);
+    LoudMarket x = with(500, 47, 0);
     text(x, 0, "99");
     x.rule(1, 0);
     x.set(0, 4, 49);
@@ -606,9 +587,9 @@ public final class EdgesOfWeeksTest {
     due("99 at most ahead of REST", x.thenPlace(1, 0, 4), 96);
   }
 
-  @Sentences.Asks(of = "Promise 14, Terms 3", says = "PURSE less by COST (of its HOARSE ahead);")
+  @Asks(of = "Promise 14, Terms 3", says = "PURSE less by COST (of its HOARSE ahead);")
   static void costOfHoarseAhead() {
-    LoudMarket x = Sentences.with(500, 44, 60);
+    LoudMarket x = with(500, 44, 60);
     x.set(0, 5, 0);
     x.set(0, 4, 7);
     text(x, 1, "h");
@@ -623,9 +604,9 @@ public final class EdgesOfWeeksTest {
     due("HUSHED", x.thenPlace(1, 0, 6), 0);
   }
 
-  @Sentences.Asks(of = "Promise 14, Terms 3", says = "then PURSE of each is more by WORTH;")
+  @Asks(of = "Promise 14, Terms 3", says = "then PURSE of each is more by WORTH;")
   static void worthOfEach() {
-    LoudMarket x = Sentences.with(100, 47, 60);
+    LoudMarket x = with(100, 47, 60);
     x.place(0, 43, 0);
     x.place(50, 45, 99);
     x.place(0, 0, 0);
@@ -638,9 +619,9 @@ public final class EdgesOfWeeksTest {
     due("one too FAR", x.placeIs(3, 6), 0);
   }
 
-  @Sentences.Asks(of = "Promise 14, Terms 3", says = "HOARSE of each less by REST; WEEKS 1 more.")
+  @Asks(of = "Promise 14, Terms 3", says = "HOARSE of each less by REST; WEEKS 1 more.")
   static void restOfEach() {
-    LoudMarket x = Sentences.with(100, 47, 60);
+    LoudMarket x = with(100, 47, 60);
     x.place(0, 43, 0);
     x.set(1, 4, 99);
     x.set(1, 7, 1);
@@ -650,9 +631,9 @@ public final class EdgesOfWeeksTest {
     due("WEEKS", x.count(2), 1);
   }
 
-  @Sentences.Asks(of = "Promise 14, Terms 3", says = "(0 .. 99 off each HOARSE a WEEK, 0 at least;")
+  @Asks(of = "Promise 14, Terms 3", says = "(0 .. 99 off each HOARSE a WEEK, 0 at least;")
   static void restToNothing() {
-    LoudMarket x = Sentences.with(0, 47, 0);
+    LoudMarket x = with(0, 47, 0);
     int[] hoarse = {0, 1, 2, 3, 4, 99};
     int[] behind = {0, 0, 0, 0, 1, 96};
     for (int i = 0; i < hoarse.length; i++) {
@@ -671,9 +652,9 @@ public final class EdgesOfWeeksTest {
 
   // ---- promise 15
 
-  @Sentences.Asks(of = "Promise 15", says = "n (1 .. 60) COIN WEEKS: THE MARKET's CELL. BEYOND.")
+  @Asks(of = "Promise 15", says = "n (1 .. 60) COIN WEEKS: THE MARKET's CELL. BEYOND.")
   static void coinsBeyond() {
-    LoudMarket x = Sentences.with(0, 49, 0);
+    LoudMarket x = with(0, 49, 0);
     due("1", x.coins(1), 45);
     due("60", x.coins(60), 49);
     due("WEEKS", x.count(2), 61);
@@ -684,26 +665,26 @@ public final class EdgesOfWeeksTest {
     refused("coins(MAX)", y -> y.coins(MAX), BEYOND);
   }
 
-  @Sentences.Asks(of = "Promise 15", says = "STATE: likewise, or there are no PLACES.")
+  @Asks(of = "Promise 15", says = "STATE: likewise, or there are no PLACES.")
   static void coinsWithoutPlaces() {
-    Sentences.refused(Sentences::empty, "coins(1) without PLACES", x -> x.coins(1), STATE);
-    Sentences.refused(Sentences::empty, "coins(60) without PLACES", x -> x.coins(60), STATE);
-    Sentences.refused(Sentences::empty, "BEYOND ahead of STATE", x -> x.coins(61), BEYOND);
-    due("with one", Sentences.with(0, 44, 0).coins(1), 44);
+    refused(Sentences::empty, "coins(1) without PLACES", x -> x.coins(1), STATE);
+    refused(Sentences::empty, "coins(60) without PLACES", x -> x.coins(60), STATE);
+    refused(Sentences::empty, "BEYOND ahead of STATE", x -> x.coins(61), BEYOND);
+    due("with one", with(0, 44, 0).coins(1), 44);
   }
 
-  @Sentences.Asks(of = "Promise 15", says = "STATE: likewise,")
+  @Asks(of = "Promise 15", says = "STATE: likewise,")
   static void coinsAboveTheLast() {
-    Sentences.refused(Sentences::old, "coins(10) in 9990", x -> x.coins(10), STATE);
-    Sentences.refused(Sentences::old, "coins(60) in 9990", x -> x.coins(60), STATE);
-    Sentences.refused(Sentences::old, "BEYOND ahead of STATE", x -> x.coins(61), BEYOND);
-    LoudMarket x = Sentences.old();
+    refused(Sentences::old, "coins(10) in 9990", x -> x.coins(10), STATE);
+    refused(Sentences::old, "coins(60) in 9990", x -> x.coins(60), STATE);
+    refused(Sentences::old, "BEYOND ahead of STATE", x -> x.coins(61), BEYOND);
+    LoudMarket x = old();
     due("9 more", x.coins(9), 47);
     due("9999", x.count(2), 9999);
     due("no more", x.coins(1), STATE);
   }
 
-  @Sentences.Asks(of = "Promise 15, Terms 3",
+  @Asks(of = "Promise 15, Terms 3",
       says = "each makes it z * 1103515245 + 12345 (an int), and gives z >>> 8.")
   static void drawsWrap() {
     int[] seeds = {1, 0, -1, MIN, MAX, 123456789, 2};
@@ -721,10 +702,10 @@ public final class EdgesOfWeeksTest {
     }
   }
 
-  @Sentences.Asks(of = "Promise 15, Terms 3",
+  @Asks(of = "Promise 15, Terms 3",
       says = "THE MARKET GOES FOR the PLACE that is a draw's rest by how many there are; no HOARSE, no COST; all else as in a WEEK.")
   static void coinWeek() {
-    LoudMarket x = Sentences.with(500, 47, 60);
+    LoudMarket x = with(500, 47, 60);
     x.set(0, 4, 2);
     text(x, 1, "500");
     due("one PLACE", x.coins(1), 45);
@@ -745,7 +726,7 @@ public final class EdgesOfWeeksTest {
 
   // ---- promise 16
 
-  @Sentences.Asks(of = "Promise 16", says = "z becomes v: what it was (any number).")
+  @Asks(of = "Promise 16", says = "z becomes v: what it was (any number).")
   static void anySeed() {
     LoudMarket x = new LoudMarket();
     int was = 1;
@@ -762,14 +743,14 @@ public final class EdgesOfWeeksTest {
   // ---- promise 17
 
   private static int movesTo(int km, int cell, int good) {
-    LoudMarket x = Sentences.with(km, cell, 0);
+    LoudMarket x = with(km, cell, 0);
     x.set(0, 5, good);
     int went = x.moves();
     due("as many went", went, x.placeIs(0, 2) == cell ? 0 : 1);
     return x.placeIs(0, 2);
   }
 
-  @Sentences.Asks(of = "Promise 17, Terms 4", says = "MOVING: a PLACE whose WORTH is below m (m 49 or less)")
+  @Asks(of = "Promise 17, Terms 4", says = "MOVING: a PLACE whose WORTH is below m (m 49 or less)")
   static void movesBelow() {
     due("WORTH 16, m 17", movesTo(17, 46, 20), 45);
     due("WORTH 16, m 16", movesTo(16, 46, 20), 46);
@@ -782,7 +763,7 @@ public final class EdgesOfWeeksTest {
     due("m 49, WORTH 49", movesTo(49, 46, 53), 46);
   }
 
-  @Sentences.Asks(of = "Promise 17, Terms 4", says = "and that isn't in THE MARKET's CELL goes one CELL for it")
+  @Asks(of = "Promise 17, Terms 4", says = "and that isn't in THE MARKET's CELL goes one CELL for it")
   static void movesNotAtTheMarket() {
     due("in its CELL", movesTo(49, 44, 0), 44);
     due("beside it", movesTo(49, 34, 0), 44);
@@ -792,22 +773,22 @@ public final class EdgesOfWeeksTest {
     due("rows' difference greater", movesTo(49, 75, 0), 65);
   }
 
-  @Sentences.Asks(of = "Promise 17, Terms 4", says = "(as THE MARKET GOES FOR a PLACE, but over RIVERS, too).")
+  @Asks(of = "Promise 17, Terms 4", says = "(as THE MARKET GOES FOR a PLACE, but over RIVERS, too).")
   static void movesOverRivers() {
-    LoudMarket x = Sentences.with(49, 48, 0);
+    LoudMarket x = with(49, 48, 0);
     x.ground(47, 1);
     x.ground(48, 1);
     due("in a RIVER to a RIVER", x.moves(), 1);
     due("there", x.placeIs(0, 2), 47);
     due("and on", x.moves(), 1);
     due("there", x.placeIs(0, 2), 46);
-    x = Sentences.with(49, 66, 0);
+    x = with(49, 66, 0);
     x.ground(65, 1);
     x.moves();
     due("not the other way", x.placeIs(0, 2), 65);
   }
 
-  @Sentences.Asks(of = "Promise 17", says = "MOVING, of PLACES by numbers: how many went.")
+  @Asks(of = "Promise 17", says = "MOVING, of PLACES by numbers: how many went.")
   static void movesOfNone() {
     due("no PLACES", new LoudMarket().moves(), 0);
     LoudMarket x = new LoudMarket();

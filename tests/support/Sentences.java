@@ -13,44 +13,41 @@ import java.util.List;
 
 // What the tests of single sentences share: each names its promise and bears
 // the sentence of DOC.md that it asks for, word by word.
-public final class Sentences {
+public class Sentences {
   @Retention(RetentionPolicy.RUNTIME)
   @Target(ElementType.METHOD)
-  public @interface Asks {
+  protected @interface Asks {
     String of();
 
     String says();
   }
 
   /** A call, or some, of which the answer of the last counts. */
-  public interface Act {
+  protected interface Act {
     long on(LoudMarket x);
   }
 
   /** An object as it is ahead of a call; each time a new one, alike to the others. */
-  public interface Made {
+  protected interface Made {
     LoudMarket one();
   }
 
-  public static final int LOW = -1000000;
-  public static final int BEYOND = LOW - 1;
-  public static final int NONE = LOW - 2;
-  public static final int STATE = LOW - 3;
-  public static final int FULL = LOW - 4;
-  public static final int KIND = LOW - 5;
-  public static final int PARTED = LOW - 6;
-  public static final int MIN = Integer.MIN_VALUE;
-  public static final int MAX = Integer.MAX_VALUE;
+  protected static final int LOW = -1000000;
+  protected static final int BEYOND = LOW - 1;
+  protected static final int NONE = LOW - 2;
+  protected static final int STATE = LOW - 3;
+  protected static final int FULL = LOW - 4;
+  protected static final int KIND = LOW - 5;
+  protected static final int PARTED = LOW - 6;
+  protected static final int MIN = Integer.MIN_VALUE;
+  protected static final int MAX = Integer.MAX_VALUE;
 
   private static String asked = "";
   private static int wrong = 0;
 
-  private Sentences() {
-  }
-
   // ---- running
 
-  public static void run(Class<?> tests) throws Exception {
+  protected static void run(Class<?> tests) throws Exception {
     Method[] all = Arrays.stream(tests.getDeclaredMethods())
         .filter(m -> m.isAnnotationPresent(Asks.class))
         .sorted(Comparator.comparing(Sentences::order)).toArray(Method[]::new);
@@ -93,19 +90,19 @@ public final class Sentences {
 
   // ---- asking
 
-  public static void must(boolean holds, String what) {
+  protected static void must(boolean holds, String what) {
     if (!holds) {
       wrong++;
       System.out.println(asked + "\n  " + what);
     }
   }
 
-  public static void due(String call, long got, long want) {
+  protected static void due(String call, long got, long want) {
     must(got == want, call + " answered " + got + ", due is " + want);
   }
 
   /** The call answers so, told() counts it if that is an ERROR, and all else is as without it. */
-  public static void unchanged(Made made, String call, Act act, int want) {
+  protected static void unchanged(Made made, String call, Act act, int want) {
     LoudMarket one = made.one();
     LoudMarket other = made.one();
     due(call, act.on(one), want);
@@ -122,41 +119,41 @@ public final class Sentences {
     }
   }
 
-  public static void refused(Made made, String call, Act act, int want) {
+  protected static void refused(Made made, String call, Act act, int want) {
     must(want < LOW, want + " is no ERROR");
     unchanged(made, call, act, want);
   }
 
-  public static void refused(String call, Act act, int want) {
+  protected static void refused(String call, Act act, int want) {
     refused(Sentences::busy, call, act, want);
   }
 
   // ---- objects
 
-  public static void feed(LoudMarket x, String text) {
+  protected static void feed(LoudMarket x, String text) {
     for (int i = 0; i < text.length(); i++) {
       x.feed(text.charAt(i), 1);
     }
   }
 
-  public static int text(LoudMarket x, int use, String text) {
+  protected static int text(LoudMarket x, int use, String text) {
     feed(x, text);
     return x.text(use);
   }
 
-  public static LoudMarket empty() {
+  protected static LoudMarket empty() {
     return new LoudMarket();
   }
 
   /** One PLACE in a land with the market in 44. */
-  public static LoudMarket with(int km, int cell, int voice) {
+  protected static LoudMarket with(int km, int cell, int voice) {
     LoudMarket x = new LoudMarket();
     x.place(km, cell, voice);
     return x;
   }
 
   /** Something of all that an object holds: a PLACE of each KIND, number 4 with m 4. */
-  public static LoudMarket busy() {
+  protected static LoudMarket busy() {
     LoudMarket x = new LoudMarket();
     x.ground(3, 1);
     x.ground(45, 2);
@@ -195,20 +192,20 @@ public final class Sentences {
   }
 
   /** Eight PLACES. */
-  public static LoudMarket crowded() {
+  protected static LoudMarket crowded() {
     LoudMarket x = busy();
     x.place(105, 33, 44);
     return x;
   }
 
-  public static LoudMarket byPulls() {
+  protected static LoudMarket byPulls() {
     LoudMarket x = busy();
     x.rule(0, 1);
     return x;
   }
 
   /** WEEKS are 9990; a PLACE, an IMAGE, nothing else. */
-  public static LoudMarket old() {
+  protected static LoudMarket old() {
     LoudMarket x = with(120, 47, 30);
     x.image();
     for (int i = 0; i < 166; i++) {
