@@ -6,7 +6,9 @@ import java.nio.file.Files;
 import java.nio.file.Path;
 import java.util.ArrayList;
 import java.util.Arrays;
+import java.util.HashMap;
 import java.util.List;
+import java.util.Map;
 import java.util.Set;
 import java.util.TreeSet;
 import java.util.regex.Matcher;
@@ -26,6 +28,7 @@ public final class LanguageTest {
   private static final int MOST_PARAMETERS = 7;
   private static final int MOST_CLASSES = 12;
   private static final int MOST_FIELDS = 20;
+  private static final int MOST_DEEP = 8;
   private static int wrong = 0;
 
   private static void must(boolean holds, String what) {
@@ -47,6 +50,7 @@ public final class LanguageTest {
     }
     words(source);
     methodLengths(source);
+    callDepth(source);
     System.out.println(wrong == 0 ? "the rules are kept" : wrong + " rules are broken");
     if (wrong != 0) {
       System.exit(1);
@@ -108,6 +112,8 @@ public final class LanguageTest {
     must(fields <= MOST_FIELDS, "rule 11: " + fields + " fields in " + c);
     must(c == LoudMarket.class || Modifier.isStatic(c.getModifiers()), "rule 2: inner: " + c);
     for (Method m : c.getDeclaredMethods()) {
+      must(!Modifier.isPrivate(m.getModifiers()) || !faceNames().contains(m.getName()),
+          "rule 1: a private one of a public name: " + m);
       must(m.getParameterCount() <= MOST_PARAMETERS, "rule 11: many parameters: " + m);
       must(!m.getName().startsWith("lambda$"), "rule 2: a lambda: " + m);
       must(!Set.of("equals", "hashCode", "toString").contains(m.getName()), "rule 6: " + m);
@@ -137,5 +143,49 @@ public final class LanguageTest {
         start = -1;
       }
     }
+  }
+
+  private static Set<String> faceNames() {
+    Set<String> names = new TreeSet<>();
+    for (String call : FACE) {
+      names.add(call.substring(0, call.indexOf('(')));
+    }
+    return names;
+  }
+
+  // ---- how deep calls go: methods of one name are taken together, which can only add to it
+
+  private static void callDepth(String source) {
+    Map<String, Set<String>> calls = new HashMap<>();
+    Matcher methods = Pattern.compile("(?m)^( {2}| {4})(?! )[\\w\\[\\] ]*?\\b(\\w+)\\([^()]*\\) \\{(.*?)^\\1\\}",
+        Pattern.DOTALL).matcher(source);
+    while (methods.find()) {
+      Matcher called = Pattern.compile("(?<!new )\\b(\\w+)\\(").matcher(methods.group(3));
+      while (called.find()) {
+        calls.computeIfAbsent(methods.group(2), name -> new TreeSet<>()).add(called.group(1));
+      }
+    }
+    for (String name : faceNames()) {
+      List<String> deepest = deepest(calls, name, new ArrayList<>());
+      must(deepest.size() <= MOST_DEEP, "rule 11: calls go deep: " + deepest);
+    }
+    must(deepest(calls, "weeks", new ArrayList<>()).contains("shoutOf"), "rule 11: calls are not seen");
+  }
+
+  /** The longest chain of calls that one begins; a call that stands open already adds nothing. */
+  private static List<String> deepest(Map<String, Set<String>> calls, String name, List<String> open) {
+    open.add(name);
+    List<String> most = List.of();
+    for (String called : calls.getOrDefault(name, Set.of())) {
+      if (called.matches("if|for|while|switch|return") || open.contains(called)) {
+        continue;
+      }
+      List<String> chain = deepest(calls, called, open);
+      most = chain.size() > most.size() ? chain : most;
+    }
+    open.remove(open.size() - 1);
+    List<String> whole = new ArrayList<>(List.of(name));
+    whole.addAll(most);
+    return whole;
   }
 }
